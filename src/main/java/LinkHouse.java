@@ -241,8 +241,8 @@ public final class LinkHouse {
     private int faultPlace = NONE;
     private final World world = new World();
     private final World spare = new World();
-    private final Loader meeter = new Loader();
-    private final Loader checker = new Loader();
+    private final Loader meeter = new Loader(0);
+    private final Loader checker = new Loader(0);
     private final int[] lost = new int[3 * USES_MOST * LIBRARIES];
     private int lostCount;
     private final Differ differ = new Differ();
@@ -1083,7 +1083,9 @@ public final class LinkHouse {
         Member method(Member sig) {
             for (int i = 0; i < members.size(); i++) {
                 Member m = members.get(i);
-                if (m.kind == METHOD && m.like(sig)) {
+                if (m.name == sig.name && m.type == sig.type && m.kind == METHOD && m.count == sig.count
+                    && m.param[0] == sig.param[0] && m.param[1] == sig.param[1]
+                    && m.param[2] == sig.param[2] && m.param[3] == sig.param[3]) {
                     return m;
                 }
             }
@@ -1270,6 +1272,7 @@ public final class LinkHouse {
         int fault;
         int faultToken;
         Build build;
+        int behindHead;
         final Node[] nodes = new Node[NODES_MOST];
         int nodeCount;
 
@@ -1302,6 +1305,9 @@ public final class LinkHouse {
                 Row r = readHead();
                 for (int k = 0; r != null && k <= ITEMS && now() != S_END && fault == 0; k++) {
                     readMember(r);
+                    if (fault == 0 && behindHead != END) {
+                        readBody(r.items.get(r.items.size() - 1));
+                    }
                 }
                 if (fault == 0) {
                     need(S_END);
@@ -1452,7 +1458,14 @@ public final class LinkHouse {
         }
 
         private boolean need(int wanted) {
-            return now() == wanted ? take() : miss();
+            if (at > count || kind[at] != wanted) {
+                return miss();
+            }
+            if (at >= TOKENS) {
+                return stop(3);
+            }
+            at++;
+            return true;
         }
 
         private Node node(int sort, int first) {
@@ -1550,6 +1563,7 @@ public final class LinkHouse {
             return true;
         }
 
+        /** A MEMBER up to what behindHead tells then: its BLOCK, its E, or nothing more. */
         private boolean readMember(Row r) {
             int sort = now();
             if (sort != CLASS_NAME && (sort < W_OPEN || sort > W_INT)) {
@@ -1560,10 +1574,11 @@ public final class LinkHouse {
             }
             Member m = build.newMember();
             r.items.add(m);
+            behindHead = S_BEGIN;
             if (sort == W_START) {
                 m.kind = START;
                 m.tok = at;
-                return take() && readBody(m);
+                return take();
             }
             r.members.add(m);
             if (sort >= W_OPEN && sort <= W_OWN) {
@@ -1575,7 +1590,7 @@ public final class LinkHouse {
             if (now() == W_NEW) {
                 m.kind = MAKER;
                 m.tok = at;
-                return take() && readParams(m) && readBody(m);
+                return take() && readParams(m);
             }
             m.fixed = now() == W_STATIC;
             if (m.fixed && !take()) {
@@ -1605,18 +1620,17 @@ public final class LinkHouse {
             }
             if (now() == S_LEFT) {
                 m.kind = METHOD;
-                return readParams(m) && (now() == S_BEGIN ? readBody(m) : need(S_STOP));
-            }
-            if (isVoid) {
+                if (!readParams(m) || now() == S_BEGIN) {
+                    return fault == 0;
+                }
+            } else if (isVoid) {
                 return miss();
+            } else if (now() == S_PUT) {
+                behindHead = S_PUT;
+                return take();
             }
-            if (now() == S_PUT) {
-                take();
-                m.from = at;
-                m.body = fault == 0 ? expr(0) : null;
-                m.to = at;
-            }
-            return fault == 0 && need(S_STOP);
+            behindHead = END;
+            return need(S_STOP);
         }
 
         private boolean readParams(Member m) {
@@ -1646,10 +1660,10 @@ public final class LinkHouse {
 
         private boolean readBody(Member m) {
             m.from = at;
-            m.body = block(0);
+            m.block = behindHead == S_BEGIN;
+            m.body = m.block ? block(0) : expr(0);
             m.to = at;
-            m.block = fault == 0;
-            return m.block;
+            return fault == 0 && (m.block || need(S_STOP));
         }
 
         /** A BLOCK that stands within so many S's and E's. */
@@ -1989,6 +2003,8 @@ public final class LinkHouse {
         final int[] parent = new int[WORLD_MOST];
         final int[] chain = new int[WORLD_MOST];
         final int[] face = new int[WORLD_MOST * FACES];
+        final int[] bar = new int[WORLD_MOST * (FACES + 1)];
+        final int[] host = new int[WORLD_MOST];
         final int[] nest = new int[WORLD_MOST];
         final long[] up = new long[WORLD_MOST];
         final int[] all = new int[WORLD_MOST * WORLD_MOST];
@@ -2063,16 +2079,37 @@ public final class LinkHouse {
             for (int x = 0; x < count; x++) {
                 Row r = row[x];
                 parent[x] = x == 0 || r.face ? NONE : find(r.parent);
-                nest[x] = r.within == NO ? NONE : find(r.within);
-                if (nest[x] < 0 || r.within >>> 59 != r.name >>> 59 || !row[nest[x]].has(WITH, r.name)) {
-                    nest[x] = x;
-                }
+                host[x] = r.within == NO ? NONE : find(r.within);
+                boolean nested = host[x] >= 0 && r.within >>> 59 == r.name >>> 59 && row[host[x]].has(WITH, r.name);
+                nest[x] = nested ? host[x] : x;
+                bar[x * (FACES + 1)] = r.face ? 0 : bars(r, parent[x], true);
                 for (int i = 0; i < FACES; i++) {
                     face[x * FACES + i] = i < r.counts[AS] ? find(r.listedAt(AS, i)) : NONE;
+                    bar[x * (FACES + 1) + 1 + i] = i < r.counts[AS] ? bars(r, face[x * FACES + i], false) : 0;
                 }
                 up[x] = 0;
                 allCount[x] = NONE;
             }
+            close();
+        }
+
+        /** Why r can't have this PARENT or FACE, if that is LOADED. */
+        private int bars(Row r, int above, boolean isParent) {
+            if (above < 0) {
+                return NOT_THERE;
+            }
+            Row p = row[above];
+            if (p.face == isParent) {
+                return OTHER_SORT;
+            }
+            if (!p.open && p.name >>> 59 != r.name >>> 59) {
+                return NOT_LET;
+            }
+            return isParent && p.last || p.counts[ONLY] > 0 && !p.has(ONLY, r.name) ? OTHER_SORT : 0;
+        }
+
+        /** HEIRS, and how many PARENTS each has. */
+        private void close() {
             boolean more = true;
             for (int turn = 0; turn <= WORLD_MOST && more; turn++) {
                 more = false;
@@ -2137,8 +2174,12 @@ public final class LinkHouse {
             if (from == NULL) {
                 return true;
             }
-            int x = find(from);
-            int y = find(wanted);
+            int x = from == ANY ? 0 : from == ILL ? 1 : NONE;
+            int y = wanted == ANY ? 0 : wanted == ILL ? 1 : NONE;
+            for (int i = 2; i < count; i++) {
+                x = row[i].name == from ? i : x;
+                y = row[i].name == wanted ? i : y;
+            }
             return x >= 0 && y >= 0 && ((up[x] >>> y & 1) != 0 || y == 0 && row[x].face);
         }
 
@@ -2816,7 +2857,7 @@ public final class LinkHouse {
                     locals = known;
                     return fault == 0;
                 case N_LET:
-                    return let(s);
+                    return (s.type == INT || named(s.type, s.first + 1) >= 0) && expr(s.a) && let(s);
                 case N_IF:
                 case N_WHILE:
                     if (!expr(s.a) || !wanted(s.a, INT) || !statement(s.b)) {
@@ -2827,7 +2868,7 @@ public final class LinkHouse {
                     locals = known;
                     return right;
                 case N_RETURN:
-                    return returned(s);
+                    return expr(s.a) && returned(s);
                 case N_THROW:
                     return expr(s.a) && wanted(s.a, ILL);
                 case N_TRY:
@@ -2835,19 +2876,16 @@ public final class LinkHouse {
                 case N_OUT:
                     return expr(s.a) && wanted(s.a, INT);
                 case N_SUPER_MAKER:
-                    return superMaker(s);
+                    return exprs(s.a) && superMaker(s);
                 case N_PUT:
-                    return put(s);
+                    return expr(s.a) && expr(s.b) && put(s);
                 default:
                     return expr(s.a) && (isCall(s.a) || fail(19, s.first));
             }
         }
 
         private boolean let(Node s) {
-            if (s.type != INT && named(s.type, s.first + 1) < 0) {
-                return false;
-            }
-            if (!expr(s.a) || !wanted(s.a, s.type)) {
+            if (s.a == null || !wanted(s.a, s.type)) {
                 return false;
             }
             s.slot = local(s.type, reader.code[s.first + 2], s.first + 2);
@@ -2855,9 +2893,6 @@ public final class LinkHouse {
         }
 
         private boolean returned(Node s) {
-            if (s.a != null && !expr(s.a)) {
-                return false;
-            }
             boolean gives = member.kind == METHOD && member.type != VOID;
             if (member.kind == START || gives != (s.a != null)) {
                 return fail(17, s.first);
@@ -2884,9 +2919,6 @@ public final class LinkHouse {
         }
 
         private boolean superMaker(Node s) {
-            if (!exprs(s.a)) {
-                return false;
-            }
             boolean first = member.kind == MAKER && member.body != null && member.body.a == s;
             s.member = first ? meant(world.parent[self], NO, s.a, true) : null;
             s.owner = row.parent;
@@ -2918,7 +2950,7 @@ public final class LinkHouse {
         }
 
         private boolean put(Node s) {
-            if (!expr(s.a) || !expr(s.b)) {
+            if (s.a == null || s.b == null) {
                 return false;
             }
             Node t = target(s.a);
@@ -2962,12 +2994,14 @@ public final class LinkHouse {
                 case N_NAME:
                     return nameAlone(n);
                 case N_CALL:
-                    return exprs(n.a) && call(n, n.a, self, reader.code[n.tok]) && statics(n, fixed, false);
+                    return exprs(n.a) && calls(n, self, meant(self, reader.code[n.tok], n.a, false)) && statics(n, fixed, false);
                 case N_OF_CLASS:
-                    return ofClass(n) && statics(n, true, false);
+                    int k = named(reader.code[n.first], n.first);
+                    return k >= 0 && field(n, k, reader.code[n.tok]) && statics(n, true, false);
                 case N_CALL_OF_CLASS:
                     int c = named(reader.code[n.first], n.first);
-                    return c >= 0 && exprs(n.a) && call(n, n.a, c, reader.code[n.tok]) && statics(n, true, false);
+                    return c >= 0 && exprs(n.a) && calls(n, c, meant(c, reader.code[n.tok], n.a, false))
+                        && statics(n, true, false);
                 case N_SUPER_OF_FACE:
                 case N_SUPER:
                     return superCall(n);
@@ -3025,13 +3059,8 @@ public final class LinkHouse {
             return true;
         }
 
-        private boolean ofClass(Node n) {
-            int c = named(reader.code[n.first], n.first);
-            return c >= 0 && field(n, c, reader.code[n.tok]);
-        }
-
-        private boolean call(Node n, Node args, int x, long name) {
-            Member m = meant(x, name, args, false);
+        /** A call of the method m of x that is meant, if one is: 12. */
+        private boolean calls(Node n, int x, Member m) {
             if (m == null) {
                 return fail(12, n.tok);
             }
@@ -3048,7 +3077,8 @@ public final class LinkHouse {
                 return false;
             }
             boolean odd = ofFace ? !row.has(AS, reader.code[n.first]) : row.face;
-            if (odd || x < 0 || !call(n, n.a, x, reader.code[n.tok]) || n.member.bare) {
+            Member m = odd ? null : meant(x, reader.code[n.tok], n.a, false);
+            if (m == null || m.bare || !calls(n, x, m)) {
                 return fail(12, n.tok);
             }
             if (fixed) {
@@ -3100,7 +3130,7 @@ public final class LinkHouse {
             if (s.kind == N_DOT) {
                 return (x < 0 ? fail(11, s.tok) : field(s, x, name)) && statics(s, false, true);
             }
-            return (x < 0 ? fail(12, s.tok) : call(s, s.a, x, name)) && statics(s, false, true);
+            return calls(s, x, meant(x, name, s.a, false)) && statics(s, false, true);
         }
 
         private boolean chain(Node n) {
@@ -3218,6 +3248,7 @@ public final class LinkHouse {
         Build build;
         Reader reader;
         Row row;
+        int rowNumber;
         Member member;
         int startTail;
         int fieldTail;
@@ -3227,9 +3258,18 @@ public final class LinkHouse {
             build = b;
             reader = r;
             for (int i = 0; i < build.rowCount; i++) {
+                rowNumber = i;
                 openRow(build.rows[i]);
                 for (int k = 0; k < row.items.size(); k++) {
-                    item(row.items.get(k));
+                    Member m = row.items.get(k);
+                    member = m;
+                    if (m.kind == FIELD) {
+                        field(m);
+                    } else if (m.kind == MAKER) {
+                        maker(m);
+                    } else if (m.block) {
+                        body(m);
+                    }
                 }
                 for (int k = 0; k < row.members.size(); k++) {
                     Member m = row.members.get(k);
@@ -3292,18 +3332,13 @@ public final class LinkHouse {
             build.patch(startTail);
         }
 
-        private void item(Member m) {
-            member = m;
-            if (m.kind == FIELD) {
-                field(m);
-            } else if (m.kind == MAKER) {
-                maker(m);
-            } else if (m.kind == START) {
+        private void body(Member m) {
+            if (m.kind == START) {
                 openStart();
                 row.begin.locals = Math.max(row.begin.locals, m.locals);
                 statement(m.body);
                 startTail = build.emit(DO_JUMP, 0);
-            } else if (m.block) {
+            } else {
                 m.code = build.codeCount;
                 statement(m.body);
                 build.emit(DO_RETURN, 0);
@@ -3330,7 +3365,7 @@ public final class LinkHouse {
                 build.emit(DO_LOAD, 0);
             }
             expr(m.body);
-            fitUse(m.body.type, m.type);
+            useOf(U_FIT, m.body.type, null, m.type);
             if (m.fixed) {
                 build.emit(DO_PUT_STATIC, useOf(U_PUT_STATIC, row.name, m, NO));
                 startTail = build.emit(DO_JUMP, 0);
@@ -3341,7 +3376,6 @@ public final class LinkHouse {
         }
 
         private void maker(Member m) {
-            member = m;
             m.code = build.codeCount;
             Node first = m.body == null ? null : m.body.a;
             if (first != null && first.kind == N_SUPER_MAKER) {
@@ -3376,24 +3410,32 @@ public final class LinkHouse {
             }
             int sort = m.fixed ? U_CALL_STATIC : U_CALL;
             build.emit(DO_CALL, useOf(row.face ? sort + 1 : sort, row.name, called, NO));
-            fitUse(called.type, m.type);
+            useOf(U_FIT, called.type, null, m.type);
             build.emit(DO_GIVE, 0);
+        }
+
+        /** Whether a type that is wanted of another one is a USE 17. */
+        private static boolean isFit(long type, long wanted) {
+            boolean named = type != INT && type != VOID && type != NULL && wanted != INT && wanted != VOID;
+            return named && type != wanted && wanted != ANY;
         }
 
         /** A USE of the class at hand: its number among these; each stands once. */
         private int useOf(int sort, long c, Member m, long other) {
             for (int i = row.useFrom; i < build.useCount; i++) {
+                Member n = build.useMember[i];
                 if (build.useSort[i] == sort && build.useClass[i] == c && build.useOther[i] == other
-                    && alike(sort, build.useMember[i], m)) {
+                    && (n == m || n != null && m != null && n.like(m))) {
                     return i - row.useFrom;
                 }
             }
-            if (build.useCount >= build.useSort.length) {
+            boolean isNone = sort == U_FIT && !isFit(c, other);
+            if (isNone || build.useCount >= build.useSort.length) {
                 return 0;
             }
             int at = build.useCount;
             build.useSort[at] = sort;
-            build.useOwner[at] = build.indexOf(row);
+            build.useOwner[at] = rowNumber;
             build.useClass[at] = c;
             build.useMember[at] = m;
             build.useOther[at] = other;
@@ -3401,29 +3443,12 @@ public final class LinkHouse {
             return at - row.useFrom;
         }
 
-        private static boolean alike(int sort, Member a, Member b) {
-            if (a == null || b == null || a == b) {
-                return a == b;
-            }
-            if (sort == U_MAKER) {
-                return a.sameParams(b);
-            }
-            return sort >= U_CALL && sort <= U_SUPER_FACE ? a.like(b) : a.name == b.name && a.type == b.type;
-        }
-
-        private void fitUse(long type, long wanted) {
-            boolean named = type != INT && type != VOID && type != NULL && wanted != INT && wanted != VOID;
-            if (named && type != wanted && wanted != ANY) {
-                useOf(U_FIT, type, null, wanted);
-            }
-        }
-
         private void args(Node first, Member m) {
             int i = 0;
             for (Node e = first; e != null; e = e.next) {
                 expr(e);
                 if (m != null && i < m.count) {
-                    fitUse(e.type, m.param[i]);
+                    useOf(U_FIT, e.type, null, m.param[i]);
                 }
                 i++;
             }
@@ -3443,7 +3468,7 @@ public final class LinkHouse {
             switch (s.kind) {
                 case N_LET:
                     expr(s.a);
-                    fitUse(s.a == null ? NO : s.a.type, s.type);
+                    useOf(U_FIT, s.a == null ? NO : s.a.type, null, s.type);
                     build.emit(DO_STORE, s.slot);
                     break;
                 case N_IF:
@@ -3455,13 +3480,13 @@ public final class LinkHouse {
                 case N_RETURN:
                     if (s.a != null) {
                         expr(s.a);
-                        fitUse(s.a.type, member.type);
+                        useOf(U_FIT, s.a.type, null, member.type);
                     }
                     build.emit(s.a == null ? DO_RETURN : DO_GIVE, 0);
                     break;
                 case N_THROW:
                     expr(s.a);
-                    fitUse(s.a == null ? NO : s.a.type, ILL);
+                    useOf(U_FIT, s.a == null ? NO : s.a.type, null, ILL);
                     build.emit(DO_THROW, 0);
                     break;
                 case N_TRY:
@@ -3472,7 +3497,15 @@ public final class LinkHouse {
                     build.emit(DO_OUT, 0);
                     break;
                 case N_PUT:
-                    put(s);
+                    Node t = Bodies.target(s.a);
+                    boolean ofObject = t != null && t.member != null && !t.member.fixed;
+                    if (ofObject && t == s.a) {
+                        build.emit(DO_LOAD, 0);
+                    } else if (ofObject) {
+                        unit(s.a, t);
+                    }
+                    expr(s.b);
+                    put(s, t);
                     break;
                 default:
                     expr(s.a);
@@ -3516,21 +3549,13 @@ public final class LinkHouse {
             build.patch(over);
         }
 
-        private void put(Node s) {
-            Node t = Bodies.target(s.a);
+        /** The value stands uppermost; of an OBJECT's field that stands below it. */
+        private void put(Node s, Node t) {
             if (t == null || s.b == null) {
                 return;
             }
             Member m = t.member;
-            if (m != null && !m.fixed) {
-                if (t == s.a) {
-                    build.emit(DO_LOAD, 0);
-                } else {
-                    unit(s.a, t);
-                }
-            }
-            expr(s.b);
-            fitUse(s.b.type, s.a.type);
+            useOf(U_FIT, s.b.type, null, s.a.type);
             if (m == null) {
                 build.emit(DO_STORE, t.slot);
             } else if (m.fixed) {
@@ -3658,6 +3683,7 @@ public final class LinkHouse {
             }
             build = b;
             row = r;
+            rowNumber = k;
             r.name = old.name;
             r.tok = old.tok;
             r.open = old.open;
@@ -3716,6 +3742,15 @@ public final class LinkHouse {
         int named;
         final int[] looked = new int[WORLD_MOST * 2 + 2];
         int lookedCount;
+        final int[] useFrom = new int[WORLD_MOST + 1];
+        final int[] asked;
+        final Member[] askedMember;
+
+        /** For so many USES it is kept what they met without failure; that stays so while nothing is undone. */
+        Loader(int kept) {
+            asked = new int[kept];
+            askedMember = new Member[kept];
+        }
 
         void clear(World w) {
             world = w;
@@ -3724,6 +3759,34 @@ public final class LinkHouse {
             state[1] = STARTED;
             eventCount = 0;
             trailCount = 0;
+            int uses = 0;
+            for (int x = 0; x < world.count && asked.length > 0; x++) {
+                useFrom[x] = uses;
+                uses += world.row[x].useCount;
+            }
+            for (int i = 0; i < uses && i < asked.length; i++) {
+                asked[i] = 0;
+            }
+        }
+
+        /** Whether it is kept that USE u of class d met no failure, and what was found then. */
+        boolean recalls(int d, int u) {
+            int i = useFrom[d] + u;
+            if (i < 0 || i >= asked.length || asked[i] == 0) {
+                return false;
+            }
+            found = askedMember[i];
+            foundAt = asked[i] % 100 - 3;
+            named = asked[i] / 100 - 3;
+            return true;
+        }
+
+        void keep(int d, int u) {
+            int i = useFrom[d] + u;
+            if (i >= 0 && i < asked.length) {
+                asked[i] = (named + 3) * 100 + foundAt + 3;
+                askedMember[i] = found;
+            }
         }
 
         void tellEvent(int x, int what) {
@@ -3767,7 +3830,10 @@ public final class LinkHouse {
                 } else if (above >= 0 && state[above] == 0) {
                     depth = openLoad(above, depth);
                 } else {
-                    int f = above < 0 ? NOT_THERE : barred(top, above, isParent);
+                    int f = above < 0 ? NOT_THERE
+                        : state[above] == BEING_LOADED ? RING
+                        : state[above] == LOADING_FAILED ? failure[above]
+                        : world.bar[top * (FACES + 1) + i];
                     step[depth - 1]++;
                     if (f != 0) {
                         state[top] = LOADING_FAILED;
@@ -3789,28 +3855,6 @@ public final class LinkHouse {
             open[depth] = x;
             step[depth] = 0;
             return depth + 1;
-        }
-
-        /** Why x can't have this PARENT or FACE, which was asked to be LOADED. */
-        private int barred(int x, int above, boolean isParent) {
-            if (state[above] == BEING_LOADED) {
-                return RING;
-            }
-            if (state[above] == LOADING_FAILED) {
-                return failure[above];
-            }
-            Row r = world.row[x];
-            Row p = world.row[above];
-            if (p.face == isParent) {
-                return OTHER_SORT;
-            }
-            if (!p.open && p.name >>> 59 != r.name >>> 59) {
-                return NOT_LET;
-            }
-            if (isParent && p.last || p.counts[ONLY] > 0 && !p.has(ONLY, r.name)) {
-                return OTHER_SORT;
-            }
-            return 0;
         }
 
         /** LINKED x: 0 or its failure. Its own stack, for USES LOAD others meanwhile. */
@@ -4062,13 +4106,9 @@ public final class LinkHouse {
             if (m.access != OWN || d == k) {
                 return world.isLet(m, k, c, d);
             }
-            int one = nest(d);
-            return one == nest(k);
-        }
-
-        private int nest(int x) {
-            int h = world.row[x].within == NO ? NONE : world.find(world.row[x].within);
-            return h >= 0 && load(h) == 0 ? world.nest[x] : x;
+            int one = world.host[d] >= 0 && load(world.host[d]) == 0 ? world.nest[d] : d;
+            int other = world.host[k] >= 0 && load(world.host[k]) == 0 ? world.nest[k] : k;
+            return one == other;
         }
     }
 
@@ -4084,7 +4124,7 @@ public final class LinkHouse {
         private static final int F_SIZE = 7;
 
         World world;
-        final Loader loader = new Loader();
+        final Loader loader = new Loader(USES_MOST * LIBRARIES);
         final int[] stack = new int[STACK_MOST];
         int top;
         final int[][] frame = new int[CALLS_MOST + 1][F_SIZE];
@@ -4097,9 +4137,6 @@ public final class LinkHouse {
         final int[] field = new int[FIELDS_MOST];
         int fields;
         final int[] statics = new int[WORLD_MOST * ITEMS];
-        final int[] useFrom = new int[WORLD_MOST + 1];
-        final int[] asked = new int[USES_MOST * LIBRARIES];
-        final Member[] askedMember = new Member[USES_MOST * LIBRARIES];
         int steps;
         final int[] out = new int[OUTS_MOST];
         int outs;
@@ -4113,14 +4150,6 @@ public final class LinkHouse {
             objects = 0;
             fields = 0;
             Arrays.fill(statics, 0);
-            int uses = 0;
-            for (int x = 0; x < world.count; x++) {
-                useFrom[x] = uses;
-                uses += world.row[x].useCount;
-            }
-            for (int i = 0; i < uses && i < asked.length; i++) {
-                asked[i] = 0;
-            }
         }
 
         /** Ahead of a run: its class is STARTED. */
@@ -4220,14 +4249,18 @@ public final class LinkHouse {
             }
         }
 
-        /** One step of what stands open. */
+        /** One step of what stands open. What needs a START is come to again behind that. */
         void turn() {
             int[] f = frame[depth - 1];
             if (f[F_PHASE] >= 0) {
-                startNext(f);
+                int next = nextStart(f);
+                if (next >= 0) {
+                    ready(next);
+                }
                 return;
             }
-            Build b = world.row[f[F_CLASS]].home;
+            int d = f[F_CLASS];
+            Build b = world.row[d].home;
             int at = f[F_AT];
             if (at < 0 || at + 1 >= b.codeCount) {
                 fail(NO_STEPS);
@@ -4235,23 +4268,38 @@ public final class LinkHouse {
             }
             int what = b.code[at];
             int number = b.code[at + 1];
-            boolean on = what >= DO_GET ? useOne(f, what, number)
-                : what >= DO_JUMP ? goOne(f, what, number)
-                : plainOne(f, what, number);
+            boolean on = true;
+            if (what < DO_JUMP) {
+                on = plainOne(f, what, number);
+            } else if (what < DO_GET) {
+                on = goOne(f, what, number);
+            } else if (what != DO_CAST && what != DO_ASK || peek(0) != 0) {
+                int failed = loader.recalls(d, number) ? 0 : loader.ask(d, number);
+                int starts = what == DO_NEW ? loader.named : what == DO_GET_STATIC || what == DO_PUT_STATIC
+                    || what == DO_CALL && loader.found != null && loader.found.fixed ? loader.foundAt : NONE;
+                if (failed != 0) {
+                    fail(failed);
+                    return;
+                }
+                loader.keep(d, number);
+                if (starts >= 0 && !ready(starts)) {
+                    return;
+                }
+                on = useOne(f, what, b.useSort[world.row[d].useFrom + number]);
+            }
             if (on) {
                 f[F_AT] = at + 2;
             }
         }
 
-        /** Ahead of a class's own START: its PARENT's, then those of the faces that run something. */
-        private void startNext(int[] f) {
+        /** What is STARTED ahead of a class itself: its PARENT, then faces that run something; below 0: its CONSTANTS are set. */
+        private int nextStart(int[] f) {
             int x = f[F_CLASS];
             int phase = f[F_PHASE];
             int next = world.row[x].face ? NONE : phase == 0 ? world.parent[x] : startedFace(x, phase);
+            f[F_PHASE]++;
             if (next >= 0) {
-                f[F_PHASE]++;
-                ready(next);
-                return;
+                return next;
             }
             f[F_PHASE] = NONE;
             Row r = world.row[x];
@@ -4261,6 +4309,7 @@ public final class LinkHouse {
                     statics[x * ITEMS + m.code] = m.worth;
                 }
             }
+            return NONE;
         }
 
         /** The n-th, from 1, of the faces that a class STARTS: each behind its own FACES. */
@@ -4438,37 +4487,8 @@ public final class LinkHouse {
             thrown = object;
         }
 
-        /** Asks USE u of class d; what was met without failure once stays so. */
-        private boolean ask(int d, int u) {
-            int i = useFrom[d] + u;
-            boolean kept = i >= 0 && i < asked.length;
-            if (kept && asked[i] > 0) {
-                loader.found = askedMember[i];
-                loader.foundAt = asked[i] % 100 - 3;
-                loader.named = asked[i] / 100 - 3;
-                return true;
-            }
-            int f = loader.ask(d, u);
-            if (f != 0) {
-                fail(f);
-                return false;
-            }
-            if (kept) {
-                asked[i] = (loader.named + 3) * 100 + loader.foundAt + 3;
-                askedMember[i] = loader.found;
-            }
-            return true;
-        }
-
-        /** What asks a USE; whether the next one is come to. */
-        private boolean useOne(int[] f, int what, int u) {
-            if ((what == DO_CAST || what == DO_ASK) && peek(0) == 0) {
-                return true;
-            }
-            int d = f[F_CLASS];
-            if (!ask(d, u)) {
-                return false;
-            }
+        /** What asked a USE, and STARTED what it needs; whether the next one is come to. */
+        private boolean useOne(int[] f, int what, int sort) {
             int c = loader.named;
             int k = loader.foundAt;
             Member m = loader.found;
@@ -4488,17 +4508,19 @@ public final class LinkHouse {
             if (what <= DO_PUT_STATIC) {
                 return staticOne(what, k, m);
             }
-            if (what == DO_CALL) {
-                Row r = world.row[d];
-                return callOne(f, r.home.useSort[r.useFrom + u], c, k, m);
+            if (what == DO_MAKER) {
+                return makerOne(f, k, m);
             }
-            return makerOne(f, k, m);
+            if (sort == U_CALL || sort == U_CALL_FACE) {
+                selectOne(f, sort, c, k, m);
+                return false;
+            }
+            f[F_AT] += 2;
+            call(k, m, m.count + (m.fixed ? 0 : 1), METHOD);
+            return false;
         }
 
         private boolean newOne(int c) {
-            if (!ready(c)) {
-                return false;
-            }
             int n = slotsTo(c);
             if (objects >= OBJECTS_MOST || fields + n > FIELDS_MOST) {
                 fail(NO_ROOM);
@@ -4568,8 +4590,8 @@ public final class LinkHouse {
 
         private boolean staticOne(int what, int k, Member m) {
             int at = k * ITEMS + m.code;
-            if (!ready(k) || at >= statics.length) {
-                return false;
+            if (at < 0 || at >= statics.length) {
+                return true;
             }
             if (what == DO_PUT_STATIC) {
                 statics[at] = pop();
@@ -4577,24 +4599,6 @@ public final class LinkHouse {
                 push(statics[at]);
             }
             return true;
-        }
-
-        private boolean callOne(int[] f, int sort, int c, int k, Member m) {
-            boolean isStatic = sort == U_CALL_STATIC || sort == U_CALL_STATIC_FACE;
-            if (isStatic) {
-                if (ready(k)) {
-                    f[F_AT] += 2;
-                    call(k, m, m.count, METHOD);
-                }
-                return false;
-            }
-            if (sort == U_CALL || sort == U_CALL_FACE) {
-                selectOne(f, sort, c, k, m);
-                return false;
-            }
-            f[F_AT] += 2;
-            call(k, m, m.count + 1, METHOD);
-            return false;
         }
 
         private void selectOne(int[] f, int sort, int c, int k, Member m) {
