@@ -1402,7 +1402,7 @@ public final class LinkHouse {
                 i++;
                 six = i < length ? sixBits(text[i]) : 0;
             }
-            kind[count] = shift < -6 ? ILLEGIBLE : isClass ? CLASS_NAME : NAME;
+            kind[count] = i - start > (isClass ? 11 : 10) ? ILLEGIBLE : isClass ? CLASS_NAME : NAME;
             code[count] = packed;
             for (int w = 0; w < WORD_COUNT && kind[count] == NAME; w++) {
                 if (words[w] == packed) {
@@ -1442,7 +1442,7 @@ public final class LinkHouse {
         /** The token at hand can't stand there. */
         private boolean miss() {
             if (fault == 0) {
-                fault = now() == ILLEGIBLE ? 1 : 2;
+                fault = at <= count && kind[at] == ILLEGIBLE ? 1 : 2;
                 faultToken = at;
             }
             return false;
