@@ -293,7 +293,7 @@ public final class LinkHouse {
         if (at < 0 || at > others || n < 0 || n > others - at) {
             return BAD;
         }
-        byte[] moved = new byte[k];
+        byte[] moved = scratch.text;
         System.arraycopy(tape, others, moved, 0, k);
         System.arraycopy(tape, at + n, tape, at + k, others - at - n);
         System.arraycopy(moved, 0, tape, at, k);
@@ -1395,12 +1395,10 @@ public final class LinkHouse {
                 : (long) (text[start] - 'a') << 54;
             int i = isClass ? start + 3 : start + 1;
             int shift = 48;
-            long six = i < length ? sixBits(text[i]) : 0;
-            while (six > 0) {
-                packed |= shift >= 0 ? six << shift : 0;
+            while (i < length && sixBits(text[i]) > 0) {
+                packed |= shift >= 0 ? sixBits(text[i]) << shift : 0;
                 shift -= 6;
                 i++;
-                six = i < length ? sixBits(text[i]) : 0;
             }
             kind[count] = i - start > (isClass ? 11 : 10) ? ILLEGIBLE : isClass ? CLASS_NAME : NAME;
             code[count] = packed;
