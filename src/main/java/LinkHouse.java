@@ -2990,7 +2990,7 @@ public final class LinkHouse {
                     n.type = row.name;
                     return !fixed || fail(14, n.first);
                 case N_NAME:
-                    return nameAlone(n);
+                    return isLocal(n) || field(n, self, reader.code[n.tok]) && statics(n, fixed, false);
                 case N_CALL:
                     return exprs(n.a) && calls(n, self, meant(self, reader.code[n.tok], n.a, false)) && statics(n, fixed, false);
                 case N_OF_CLASS:
@@ -3034,15 +3034,14 @@ public final class LinkHouse {
             return type != INT && type != VOID || fail(13, token);
         }
 
-        private boolean nameAlone(Node n) {
-            long name = reader.code[n.tok];
-            int i = localOf(name);
-            if (i >= 0) {
-                n.slot = i + (fixed ? 0 : 1);
-                n.type = localType[i];
-                return true;
+        private boolean isLocal(Node n) {
+            int i = localOf(reader.code[n.tok]);
+            if (i < 0) {
+                return false;
             }
-            return field(n, self, name) && statics(n, fixed, false);
+            n.slot = i + (fixed ? 0 : 1);
+            n.type = localType[i];
+            return true;
         }
 
         /** The FIELD of a NAME of c that n means: 11. */
