@@ -8,7 +8,7 @@ final class Check {
         held++;
         if (got != want) {
             wrong++;
-            System.out.println(what + " answered " + got + ", due is " + want);
+            System.out.println(brief(what) + " answered " + got + ", due is " + want);
         }
     }
 
@@ -16,8 +16,12 @@ final class Check {
         held++;
         if (!got.equals(want)) {
             wrong++;
-            System.out.println(what + " told '" + got + "', due is '" + want + "'");
+            System.out.println(brief(what) + " told '" + got + "', due is '" + want + "'");
         }
+    }
+
+    private static String brief(String what) {
+        return what.length() <= 300 ? what : what.substring(0, 150) + " .. " + what.substring(what.length() - 140);
     }
 
     static void end(String name) {
