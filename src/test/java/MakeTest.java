@@ -292,7 +292,7 @@ public final class MakeTest {
         fine("face a.G as b.F { int g() { return 3; } int f() { return 4; } } class a.A as b.F, a.G { }");
         fine("face a.G { int g() { return 3; } int f() { return 4; } } class a.A as b.F, a.G { open int f() { return 1; } open int g() { return 2; } }");
         fault(10, "open bare class a.A { bare int f(); } class @b.B is a.A { }");
-        fault(10, "bare class a.A { bare int f(); } class @b.B is a.A { int f() { return 1; } }".replace("bare class a.A", "open bare class a.A"));
+        fault(10, "open bare class a.A { bare int f(); } class @b.B is a.A { int f() { return 1; } }");
     }
 
     private static void types() {
