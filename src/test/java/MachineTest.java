@@ -143,6 +143,11 @@ public final class MachineTest {
         d.stand(1, "class b.R is a.Q { open int f() { return 3; } static void m() { out new b.R().all(); } } ");
         Check.due("run", d.run("b.R.m"), 1);
         Check.due("by one between", d.numbers(), "3");
+        Check e = new Check();
+        e.stand(0, "open class a.P { int f() { return 1; } open int all() { return f(); } } open class a.Q is a.P { kin int f() { return 2; } } open class b.Q is a.P { int f() { return 5; } } ");
+        e.stand(1, "class c.R is a.Q { open int f() { return 3; } static void m() { out new c.R().all(); out new b.S().all(); } } open class b.S is b.Q { int f() { return 6; } }");
+        Check.due("run", e.run("c.R.m"), 1);
+        Check.due("by a kin one between, not by one of another package", e.numbers(), "3 1");
     }
 
     private static void faces() {
@@ -166,6 +171,8 @@ public final class MachineTest {
             + "try { try { throw new c.G(); } catch (c.E e) { out 1; } } catch (c.G e) { out 2; } try { try { throw new c.E(); } catch (c.E e) { throw e; } } catch (z.Ill e) { out e == null; } "
             + "let int i = 0; while (i < 2) { try { i = i + 1; t(1); } catch (c.E q) { out i; } } out r(); } static int r() { try { return 5; } catch (c.E e) { return 6; } } }",
             "0 10 99 1 3 99 2 4 2 0 1 1 1 2 5");
+        outs("class c.E is z.Ill { } class c.M { static void t() { try { out 1; } catch (z.Ill e) { out 2; } throw new c.E(); } static void m() { try { t(); } catch (c.E e) { out 3; } "
+            + "try { try { out 4; } catch (c.E e) { out 5; } throw new c.E(); } catch (c.E e) { out 6; } let int i = 0; while (i < 40) { try { i = i + 1; } catch (c.E e) { } } out i; } }", "1 3 4 6 40");
         Check c = with("class c.E is z.Ill { c.E n; } class c.M { static void m() { try { n(); } catch (c.E e) { let c.E f = new c.E(); f.n = e; throw f; } } static void n() { throw new c.E(); } }");
         Check.due("thrown", c.run("c.M.m"), 2);
         Check.due("value", c.x.value(), 2);

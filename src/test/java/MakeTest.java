@@ -261,6 +261,9 @@ public final class MakeTest {
         fault(9, "class a.A is b.P { own int @m() { return 1; } }");
         fine("class a.A is b.P { int pm() { return 1; } own b.P om() { return null; } static int sm() { return 2; } kin int km() { return 2; } open int m(int p) { return 1; } }");
         fault(9, "class b.A is b.P { own int @pm() { return 1; } }");
+        fine("class a.A is b.P { static z.Any pm() { return null; } static void om() { } }");
+        fine("class a.A as b.F { open int f() { return 1; } int sf() { return 2; } }");
+        fault(9, "class b.A is b.P { static int @pm() { return 1; } }");
         fault(9, "class a.A as b.F { int @f() { return 1; } }");
         fault(9, "face a.A as b.F { void @g(); }");
         fine("class a.A as b.F { open int f() { return 1; } static void sf() { } }");
