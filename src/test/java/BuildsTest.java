@@ -96,6 +96,10 @@ public final class BuildsTest {
             + "static final int l1; static int m(); static final int n1; int o1; static final int p1; new()");
         Check.due("their uses", c.uses(1, 0, 0), "16 a.A.one=1; 16 b.B.a1=11; 16 b.B.d1=4; 6 b.B.c1:int; 4 b.B.e1:int; 6 b.B.f1:int; 5 a.A.no:int; 6 b.B.g1:int; "
             + "16 a.A.low=-2147483648; 6 b.B.k1:b.B; 9 b.B.m()int; 6 b.B.l1:int; 14 b.B; 6 b.B.n1:int; 4 b.B.o1:int");
+        c.make(1, "class b.C { static final int a1 = 3 == 3; static final int b1 = 3 < 3; static final int c1 = 2 < 3; static final int d1 = 3 == 4; "
+            + "static final int e1 = 7 - 2 - 3 * (2 - 3); static final int f1 = (1 < 2) == 1; }");
+        Check.due("comparing", c.members(1, 1, 0), "static final int a1=1; static final int b1=0; static final int c1=1; static final int d1=0; "
+            + "static final int e1=8; static final int f1=1; new()");
         Check.due("a constant that is not LET", c.make(1, "class b.B { static final int x = a.A.two; }"), -21);
     }
 

@@ -16,6 +16,7 @@ public final class MachineTest {
         stepsAndDepth();
         room();
         failures();
+        nulls();
         eventsAndStates();
         touching();
         Check.end("MachineTest");
@@ -315,6 +316,16 @@ public final class MachineTest {
         Check.due("more than 2000 fields", c.run("c.M.n"), -26);
         Check.due("OBJECTS", c.x.told(2), 153);
         Check.due("fields", c.x.told(3), 153 * 13);
+        StringBuilder twenty = new StringBuilder();
+        for (int i = 0; i < 20; i++) {
+            twenty.append("int f" + i + "; ");
+        }
+        Check e = with("class c.N { " + twenty + "} class c.O { int x; } class c.M { static void m() { let int i = 0; while (i < 100) { new c.N(); i = i + 1; } out i; } static void n() { new z.Any(); } static void o() { new c.O(); } }");
+        Check.due("2000 fields", e.run("c.M.m"), 1);
+        Check.due("fields", e.x.told(3), 2000);
+        Check.due("one without", e.run("c.M.n"), 1);
+        Check.due("one more", e.run("c.M.o"), -26);
+        Check.due("fields", e.x.told(3), 2000);
         Check d = with("class c.M { static void m() { let int i = 0; while (i < 130) { out i; i = i + 1; } } }");
         Check.due("run", d.run("c.M.m"), 1);
         Check.due("100 numbers", d.x.told(1), 100);
@@ -350,6 +361,21 @@ public final class MachineTest {
                 Check.due(runs[k] + " with " + texts[i], c.run(runs[k]), due[i][k]);
             }
         }
+    }
+
+    /** CAST and ask of null ask no USE. */
+    private static void nulls() {
+        Check c = new Check();
+        c.stand(0, "open class a.A { }");
+        c.stand(1, "class c.M { static z.Any n() { return null; } static void m() { let z.Any v = (a.A) n(); out v == null; out n() ask a.A; } static void k() { let z.Any v = (a.A) new c.M(); } "
+            + "static void l() { out new c.M() ask a.A; } }");
+        Check.due("run", c.run("c.M.m"), 1);
+        Check.due("no use was asked", c.events(), "301 302 303 304");
+        c.x.pick(0, LinkHouse.NONE);
+        Check.due("run", c.run("c.M.m"), 1);
+        Check.due("outs", c.numbers(), "1 0");
+        Check.due("cast", c.run("c.M.k"), -11);
+        Check.due("ask", c.run("c.M.l"), -11);
     }
 
     private static void eventsAndStates() {

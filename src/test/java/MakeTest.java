@@ -154,6 +154,10 @@ public final class MakeTest {
         fineIn(Check.times("{ ", 10) + "return ; " + Check.times("} ", 10));
         inMethod(3, Check.times("{ ", 10) + "out @1; " + Check.times("} ", 10));
         inMethod(3, Check.times("{ ", 10) + "@i(); " + Check.times("} ", 10));
+        fineIn(Check.times("{ ", 9) + "try { } catch (z.Ill q) { } " + Check.times("} ", 9));
+        inMethod(3, Check.times("{ ", 10) + "try @{ } catch (z.Ill q) { } " + Check.times("} ", 10));
+        fault(3, "class a.A { new() " + Check.times("{ ", 11) + "super(@1); " + Check.times("} ", 12));
+        fault(18, "class a.A { new() " + Check.times("{ ", 10) + "@super(1); " + Check.times("} ", 11));
         fineIn(Check.times("{ ", 9) + "i(); out 1; " + Check.times("} ", 9));
         inMethod(3, Check.times("{ ", 9) + "out (@1); " + Check.times("} ", 9));
         inMethod(3, Check.times("{ ", 11) + "@out 1; " + Check.times("} ", 11));
