@@ -600,9 +600,7 @@ class Judge:
         s.m=m
         if m.kind=='field':
             if m.e:
-                s.ue(m.e)
-                if m.const is None:
-                    s.F(m.e.t,m.type); m.put=s.U(6 if m.static else 4,s.d.name,m.name,m.type)
+                s.ue(m.e); s.F(m.e.t,m.type)
         elif m.kind=='maker':
             b=m.block.s if m.block else []
             if not(b and b[0].k=='superm') and s.w.parent(s.d).name!='z.Any': m.supuse=s.U(2,s.d.is_,tuple(m.sup.params))

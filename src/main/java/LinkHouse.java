@@ -207,6 +207,8 @@ public final class LinkHouse {
     private static final int DO_FIELDS = 20;
     private static final int DO_BACK = 21;
     private static final int DO_STARTED = 22;
+    private static final int DO_FILL = 23;
+    private static final int DO_FILL_STATIC = 24;
     private static final int DO_GET = 30;
     private static final int DO_PUT = 31;
     private static final int DO_GET_STATIC = 32;
@@ -3342,6 +3344,7 @@ public final class LinkHouse {
             }
         }
 
+        /** A field's E and its 17; what it gives is put in without a USE, for nothing is named in front of this =. */
         private void field(Member m) {
             if (m.body == null) {
                 return;
@@ -3363,11 +3366,10 @@ public final class LinkHouse {
             }
             expr(m.body);
             useOf(U_FIT, m.body.type, null, m.type);
+            build.emit(m.fixed ? DO_FILL_STATIC : DO_FILL, m.code);
             if (m.fixed) {
-                build.emit(DO_PUT_STATIC, useOf(U_PUT_STATIC, row.name, m, NO));
                 startTail = build.emit(DO_JUMP, 0);
             } else {
-                build.emit(DO_PUT, useOf(U_PUT, row.name, m, NO));
                 fieldTail = build.emit(DO_JUMP, 0);
             }
         }
@@ -4432,6 +4434,10 @@ public final class LinkHouse {
                 case DO_BACK:
                     f[F_AT] = f[F_BACK];
                     return false;
+                case DO_FILL:
+                    return fieldOne(true, f[F_CLASS], number);
+                case DO_FILL_STATIC:
+                    return staticOne(true, f[F_CLASS], number);
                 case DO_STARTED:
                     loader.state[f[F_CLASS]] = STARTED;
                     loader.tellEvent(f[F_CLASS], STARTED);
@@ -4500,10 +4506,10 @@ public final class LinkHouse {
                 return false;
             }
             if (what <= DO_PUT) {
-                return fieldOne(what, k, m);
+                return fieldOne(what == DO_PUT, k, m.code);
             }
             if (what <= DO_PUT_STATIC) {
-                return staticOne(what, k, m);
+                return staticOne(what == DO_PUT_STATIC, k, m.code);
             }
             if (what == DO_MAKER) {
                 return makerOne(f, k, m);
@@ -4565,19 +4571,20 @@ public final class LinkHouse {
             return false;
         }
 
-        private boolean fieldOne(int what, int k, Member m) {
-            int v = what == DO_PUT ? pop() : 0;
+        /** Field number slot of class k is put, or got, of the OBJECT that is uppermost. */
+        private boolean fieldOne(boolean puts, int k, int slot) {
+            int v = puts ? pop() : 0;
             int object = pop();
             if (object <= 0 || object > objects) {
                 fail(IS_NULL);
                 return false;
             }
-            int at = objectFrom[object] + slotsTo(k) - world.row[k].slots + m.code;
+            int at = objectFrom[object] + slotsTo(k) - world.row[k].slots + slot;
             if (at < 0 || at >= fields) {
                 fail(OTHER_SORT);
                 return false;
             }
-            if (what == DO_PUT) {
+            if (puts) {
                 field[at] = v;
             } else {
                 push(field[at]);
@@ -4585,12 +4592,12 @@ public final class LinkHouse {
             return true;
         }
 
-        private boolean staticOne(int what, int k, Member m) {
-            int at = k * ITEMS + m.code;
+        private boolean staticOne(boolean puts, int k, int slot) {
+            int at = k * ITEMS + slot;
             if (at < 0 || at >= statics.length) {
                 return true;
             }
-            if (what == DO_PUT_STATIC) {
+            if (puts) {
                 statics[at] = pop();
             } else {
                 push(statics[at]);

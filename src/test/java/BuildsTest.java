@@ -7,6 +7,7 @@ public final class BuildsTest {
         constants();
         usesInOrder();
         usesOfCalls();
+        fieldsWithoutUse();
         wrong();
         Check.end("BuildsTest");
     }
@@ -94,8 +95,8 @@ public final class BuildsTest {
         Check.due("constants", c.members(1, 0, 0), "static final int a1=11; static final int b1=1; static final int c1; static final int d1=4; final int e1; static int f1; "
             + "static final int g1; static final int h1=2147483647; static final int i1=0; static final int j1=808348673; static final b.B k1; "
             + "static final int l1; static int m(); static final int n1; int o1; static final int p1; new()");
-        Check.due("their uses", c.uses(1, 0, 0), "16 a.A.one=1; 16 b.B.a1=11; 16 b.B.d1=4; 6 b.B.c1:int; 4 b.B.e1:int; 6 b.B.f1:int; 5 a.A.no:int; 6 b.B.g1:int; "
-            + "16 a.A.low=-2147483648; 6 b.B.k1:b.B; 9 b.B.m()int; 6 b.B.l1:int; 14 b.B; 6 b.B.n1:int; 4 b.B.o1:int");
+        Check.due("their uses", c.uses(1, 0, 0), "16 a.A.one=1; 16 b.B.a1=11; 16 b.B.d1=4; 5 a.A.no:int; "
+            + "16 a.A.low=-2147483648; 9 b.B.m()int; 14 b.B");
         c.make(1, "class b.C { static final int a1 = 3 == 3; static final int b1 = 3 < 3; static final int c1 = 2 < 3; static final int d1 = 3 == 4; "
             + "static final int e1 = 7 - 2 - 3 * (2 - 3); static final int f1 = (1 < 2) == 1; }");
         Check.due("comparing", c.members(1, 1, 0), "static final int a1=1; static final int b1=0; static final int c1=1; static final int d1=0; "
@@ -111,14 +112,14 @@ public final class BuildsTest {
             + "a.P go(a.Q v, z.Any w) { let a.P x = v; this.n = v; v.n.n = null; a.P.s = v; x = v; w = v; f(v); v.f(this); out v ask a.F; x = (a.P) w; "
             + "try { throw new a.X(); } catch (a.X e) { throw e; } } a.F to(b.B v) { if (1) return null; return v; } void un(z.Any v) { un(v); } "
             + "start { new a.P(new a.Q(), new a.Q()); } a.F g = this; static a.P t; }");
-        Check.due("uses", c.uses(1, 0, 0), "18 a.P; 19 a.F; 4 b.B.d:int; 17 a.Q>a.F; 2 a.P.new(z.Any,a.F); 3 b.B.d:int; 4 b.B.i:int; 2 a.P.new(); "
+        Check.due("uses", c.uses(1, 0, 0), "18 a.P; 19 a.F; 17 a.Q>a.F; 2 a.P.new(z.Any,a.F); 3 b.B.d:int; 4 b.B.i:int; 2 a.P.new(); "
             + "17 a.Q>a.P; 4 b.B.n:a.P; 3 a.Q.n:a.P; 4 a.P.n:a.P; 6 a.P.s:a.P; 7 b.B.f(a.F)int; 17 b.B>a.F; 7 a.Q.f(a.F)int; 14 a.F; 13 a.P; 1 a.X; 2 a.X.new(); "
-            + "17 a.X>z.Ill; 15 a.X; 7 b.B.un(z.Any)void; 1 a.P; 1 a.Q; 2 a.Q.new(); 4 b.B.g:a.F");
+            + "17 a.X>z.Ill; 15 a.X; 7 b.B.un(z.Any)void; 1 a.P; 1 a.Q; 2 a.Q.new()");
         c.make(1, "class b.B { } class b.C is b.B { } class b.D is b.C { b.C x = new b.C(); new(int p) { } }");
         Check.due("none of z.Any's by super", c.uses(1, 1, 0), "");
         Check.due("a default maker's super", c.uses(1, 1, 1), "18 b.B; 2 b.B.new()");
-        Check.due("by new and by super", c.uses(1, 1, 2), "18 b.C; 1 b.C; 2 b.C.new(); 4 b.D.x:b.C");
-        Check.due("uses of all", c.x.uses(1, 1), 6);
+        Check.due("by new and by super", c.uses(1, 1, 2), "18 b.C; 1 b.C; 2 b.C.new()");
+        Check.due("uses of all", c.x.uses(1, 1), 5);
         Check.due("its class", c.x.use(1, 1, 1, 1), 1);
         Check.due("its sort", c.x.use(1, 1, 1, 0), 2);
         c.make(1, "class b.E is z.Ill { void f() { new z.Any(); code = 1; let z.Any v = this; throw this; } }");
@@ -133,7 +134,26 @@ public final class BuildsTest {
         Check.due("by a class", c.uses(1, 0, 0), "18 a.A; 7 b.B.f(int)int; 11 a.A.f(int)int; 10 a.F.s()void; 17 b.B>a.F; 9 b.B.t(z.Any,a.F)int; "
             + "9 a.A.t(z.Any,a.F)int; 5 b.B.w:int; 3 b.B.u:int; 2 a.A.new()");
         c.make(1, "face b.G as a.F { int f(int p) { return a.F.super.f(c) + f(2) + b.G.k(this) + this.f(3); } own static int k(a.F p) { return p.f(4); } int m = k(null); }");
-        Check.due("by a face", c.uses(1, 1, 0), "19 a.F; 16 b.G.c=1; 12 a.F.f(int)int; 8 b.G.f(int)int; 17 b.G>a.F; 10 b.G.k(a.F)int; 8 a.F.f(int)int; 6 b.G.m:int");
+        Check.due("by a face", c.uses(1, 1, 0), "19 a.F; 16 b.G.c=1; 12 a.F.f(int)int; 8 b.G.f(int)int; 17 b.G>a.F; 10 b.G.k(a.F)int; 8 a.F.f(int)int");
+    }
+
+    /** A field's '= E' has the USES of its E, and its 17, and none of the field itself. */
+    private static void fieldsWithoutUse() {
+        Check c = new Check();
+        c.stand(0, "open class a.A { open int i; open static a.A s; } open class a.B is a.A { } open face a.F { a.A k = new a.B(); z.Any v = new a.B(); }");
+        c.make(1, "class b.B { int x = 1; own final int y = x; static int z = 2; static final int w = 3; static final int r = z; final a.A q = new a.B(); static a.A t = a.A.s; a.B n = null; }");
+        Check.due("of a class", c.uses(1, 0, 0), "3 b.B.x:int; 5 b.B.z:int; 1 a.B; 2 a.B.new(); 17 a.B>a.A; 5 a.A.s:a.A");
+        Check.due("of a face", c.uses(0, 0, 2), "1 a.B; 2 a.B.new(); 17 a.B>a.A");
+        c.make(1, "class b.B is a.A { int x = 1; static int z = 2; start { z = 3; } new() { x = 4; i = 5; } }");
+        Check.due("what stands in front of = has one", c.uses(1, 1, 0), "18 a.A; 6 b.B.z:int; 2 a.A.new(); 4 b.B.x:int; 4 b.B.i:int");
+        c.make(1, "class b.B { static final int x = 1; final int y = 2; start { x = 3; } new() { y = 4; } }");
+        Check.due("a CONSTANT is put by a start", c.uses(1, 2, 0), "6 b.B.x:int; 4 b.B.y:int");
+        c.make(1, "class b.B { int x = 1; static int y = 2; } class b.C is b.B { int z = x; }");
+        Check.due("none is there", c.x.uses(1, 3), 3);
+        Check.due("none is there", c.x.use(1, 3, 3, 0), LinkHouse.BAD);
+        Check.due("none is there", c.x.meet(1, 3, 3), LinkHouse.BAD);
+        Check.due("none is there", c.x.touch(1, 3, 3), LinkHouse.BAD);
+        Check.due("it does not stand", c.x.meet(1, 3, 2), LinkHouse.NONE);
     }
 
     private static void wrong() {

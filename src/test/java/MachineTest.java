@@ -11,6 +11,7 @@ public final class MachineTest {
         bridges();
         throwing();
         starting();
+        fieldsFilled();
         startFailures();
         linking();
         stepsAndDepth();
@@ -198,6 +199,26 @@ public final class MachineTest {
         outs("class c.M { static void m() { out c.A.k; let c.A v = null; out v == null; out null ask c.A; out c.B.p; c.B.s(); new c.C(); out 5; c.A.t = 3; } } class c.A { static int t; static final int k = 1; start { out 77; } } "
             + "class c.B is c.P { start { out 88; } } class c.P { static int p = 3; static void s() { out 4; } start { out 66; } } class c.C { start { out 55; } }", "1 1 0 66 3 4 55 5 77");
         outs("class c.M { static void m() { let c.F v = new c.A(); out 1; c.F.s(); out c.G.k2; } } face c.F { int x = c.O.o(7); int f(); static void s() { out 2; } } face c.G as c.F { int k2 = c.O.o(8); } class c.A as c.F { open int f() { return 1; } } class c.O { static int o(int p) { out p; return p; } }", "1 7 2 8 8");
+    }
+
+    /** A field's own E is put into the field of the class at hand, whatever has its NAME elsewhere. */
+    private static void fieldsFilled() {
+        Check c = with("class c.A as c.F { int x = 1; int y = x + 1; static int s = o(3); static final int k = 4; int w; static int o(int p) { out p; return p; } } "
+            + "class c.B is c.A { final int x = o(super.g() + y); c.A v = this; static int s = o(5); int u = k; static c.B t = new c.B(); static final int k = o(7); new() { super(); w = x; } new(int p) { out p; } } "
+            + "face c.F { int y = 8; int g() { return 9; } } class c.M { static void m() { new c.B(6); out c.A.s; out c.B.s; out c.B.k; out c.B.t.x; out c.B.t.w; } }");
+        Check.due("run", c.run("c.M.m"), 1);
+        Check.due("numbers", c.numbers(), "3 5 11 7 11 6 3 5 7 11 11");
+        Check.due("objects", c.x.told(2), 2);
+        Check.due("fields", c.x.told(3), 12);
+        int[] due = {1, 2, 11, 11, 1, 0, 1, 2, 0, 11, 2, 7};
+        for (int i = 0; i < due.length; i++) {
+            Check.due("field " + i, c.x.fieldOf(1 + i / 6, i % 6), due[i]);
+        }
+        Check d = with("class c.A { int x = new z.Ill().code + o(1); static int y = z + 2; static int z = o(y); static int o(int p) { out p; if (p == 1) throw new z.Ill(); return p; } "
+            + "static void m() { try { new c.A(); } catch (z.Ill e) { out 5; } out y; out z; } }");
+        Check.due("run", d.run("c.A.m"), 1);
+        Check.due("numbers", d.numbers(), "2 1 5 2 2");
+        Check.due("an E that threw puts nothing", d.x.fieldOf(1, 0), 0);
     }
 
     private static void startFailures() {
