@@ -1,4 +1,3 @@
-import java.util.ArrayList;
 import java.util.Arrays;
 
 /** A house that links: texts of classes are judged and made into builds, builds meet in THE WORLD, a machine runs them. */
@@ -20,12 +19,21 @@ public final class LinkHouse {
     private static final int BRIDGES = 12;
     private static final int PARAMS = 4;
     private static final int NESTED = 12;
+    private static final int MEMBERS = ITEMS + 1 + BRIDGES;
     private static final int WORLD_MOST = 64;
-    private static final int USES_MOST = 2000;
-    private static final int CODE_MOST = 7000;
-    private static final int POOL_MOST = 500;
-    private static final int NODES_MOST = 2200;
     private static final int WORD_COUNT = 30;
+
+    /*
+     * What 700 tokens and 12 times 12 BRIDGES can need at most. Of tokens each is the one of one USE, one Node and two
+     * instructions at most, of BRIDGES each has two USES and seven instructions; an instruction takes two numbers.
+     * Members are those told, a maker and what STARTS it of each class, and BRIDGES. (NOTES.md counts it.)
+     */
+    private static final int BRIDGES_ALL = CLASSES * BRIDGES;
+    private static final int USES_MOST = TOKENS + 2 * BRIDGES_ALL;
+    private static final int CODE_MOST = 4 * TOKENS + 14 * BRIDGES_ALL;
+    private static final int POOL_MOST = CLASSES * (ITEMS + 2 + BRIDGES);
+    private static final int NODES_MOST = TOKENS + 100;
+    private static final int CHANGES_MOST = 2 * TOKENS + 200;
     private static final int LONG_LOOP = 100000000;
 
     /* A name is packed into one long, five or six bits a sign; these stand where no name can. */
@@ -232,10 +240,10 @@ public final class LinkHouse {
     private int tapeLength;
     private final byte[] out = new byte[OUT_MOST];
     private int outLength;
-    private final Build[] table = new Build[LIBRARIES * BUILDS_EACH];
+    private final Build[] store = new Build[BUILDS_ALL + 1];
     private final int[] built = new int[LIBRARIES];
     private final int[] standing = new int[LIBRARIES];
-    private Build scratch = newBuild();
+    private final int[] trial = new int[LIBRARIES];
     private final Reader reader = new Reader();
     private final Judge judge = new Judge();
     private final Bodies bodies = new Bodies();
@@ -251,13 +259,12 @@ public final class LinkHouse {
     private final Machine machine = new Machine();
 
     public LinkHouse() {
+        for (int i = 0; i < store.length; i++) {
+            store[i] = new Build(CLASSES, POOL_MOST, TAPE_MOST, TOKENS, USES_MOST, CODE_MOST);
+        }
         Arrays.fill(standing, NONE);
         gather(world, standing);
         machine.clear(world);
-    }
-
-    private static Build newBuild() {
-        return new Build(CLASSES, POOL_MOST, TAPE_MOST, TOKENS, USES_MOST, CODE_MOST);
     }
 
     public int feed(int a, int b, int c, int d, int e) {
@@ -295,7 +302,7 @@ public final class LinkHouse {
         if (at < 0 || at > others || n < 0 || n > others - at) {
             return BAD;
         }
-        byte[] moved = scratch.text;
+        byte[] moved = unused().text;
         System.arraycopy(tape, others, moved, 0, k);
         System.arraycopy(tape, at + n, tape, at + k, others - at - n);
         System.arraycopy(moved, 0, tape, at, k);
@@ -326,7 +333,18 @@ public final class LinkHouse {
     }
 
     private Build buildOf(int lib, int build) {
-        return isLibrary(lib) && build >= 0 && build < built[lib] ? table[lib * BUILDS_EACH + build] : null;
+        int n = allBuilt();
+        for (int i = 0; i < n; i++) {
+            if (store[i].library == lib && store[i].number == build) {
+                return store[i];
+            }
+        }
+        return null;
+    }
+
+    /** The build at hand: the first of the store that is none yet; there is one more than can be made. */
+    private Build unused() {
+        return store[Math.min(allBuilt(), BUILDS_ALL)];
     }
 
     private Row rowOf(int lib, int build, int k) {
@@ -364,25 +382,26 @@ public final class LinkHouse {
         }
         int size = tapeLength;
         tapeLength = 0;
-        if (!reader.read(scratch, tape, size)) {
+        Build made = unused();
+        if (!reader.read(made, tape, size)) {
             return faulted(reader.fault, reader.faultToken);
         }
         spare.clear();
-        spare.enter(scratch);
+        spare.enter(made);
         for (int i = 0; i < LIBRARIES; i++) {
             spare.enter(i == lib ? null : buildOf(i, standing[i]));
         }
         spare.settle();
-        if (!judge.judge(spare, scratch, reader)) {
+        if (!judge.judge(spare, made, reader)) {
             return faulted(judge.fault, judge.faultToken);
         }
-        if (!bodies.judge(spare, scratch, reader)) {
+        if (!bodies.judge(spare, made, reader)) {
             return faulted(bodies.fault, bodies.faultToken);
         }
-        emitter.write(spare, scratch, reader);
+        emitter.write(spare, made, reader);
         reader.keep();
         faultPlace = NONE;
-        return keepScratch(lib);
+        return keep(made, lib);
     }
 
     private int faulted(int fault, int token) {
@@ -390,12 +409,12 @@ public final class LinkHouse {
         return -10 - fault;
     }
 
-    private int keepScratch(int lib) {
-        int build = built[lib];
-        table[lib * BUILDS_EACH + build] = scratch;
+    /** The build at hand becomes one of a library's: its number. */
+    private int keep(Build made, int lib) {
+        made.library = lib;
+        made.number = built[lib];
         built[lib]++;
-        scratch = newBuild();
-        return build;
+        return made.number;
     }
 
     public int place() {
@@ -433,19 +452,19 @@ public final class LinkHouse {
 
     public int members(int lib, int build, int k) {
         Row r = rowOf(lib, build, k);
-        return r == null ? BAD : r.members.size();
+        return r == null ? BAD : r.memberCount;
     }
 
     public int shape(int lib, int build, int k, int m) {
         Row r = rowOf(lib, build, k);
-        if (r == null || m != NONE && (m < 0 || m >= r.members.size())) {
+        if (r == null || m != NONE && (m < 0 || m >= r.memberCount)) {
             return BAD;
         }
         outLength = 0;
         if (m == NONE) {
             tellHead(r);
         } else {
-            tellMember(r.members.get(m));
+            tellMember(r.members[m]);
         }
         return outLength;
     }
@@ -716,32 +735,35 @@ public final class LinkHouse {
     }
 
     public int choose() {
-        int[] which = new int[LIBRARIES];
         int worlds = 1;
         for (int i = 0; i < LIBRARIES; i++) {
-            which[i] = built[i] == 0 ? NONE : built[i] - 1;
+            trial[i] = greatest(i);
             worlds *= Math.max(built[i], 1);
         }
         for (int tried = 1; tried <= worlds; tried++) {
-            gather(spare, which);
-            if (countBroken(spare, which, false) == 0) {
-                System.arraycopy(which, 0, standing, 0, LIBRARIES);
+            gather(spare, trial);
+            if (countBroken(spare, trial, false) == 0) {
+                System.arraycopy(trial, 0, standing, 0, LIBRARIES);
                 renewWorld();
                 return tried;
             }
-            lower(which);
+            lowerTrial();
         }
         return NONE;
     }
 
+    private int greatest(int lib) {
+        return built[lib] == 0 ? NONE : built[lib] - 1;
+    }
+
     /** The next world to be tried: the last library changes first. */
-    private void lower(int[] which) {
+    private void lowerTrial() {
         for (int i = LIBRARIES - 1; i >= 0; i--) {
-            if (which[i] > 0) {
-                which[i]--;
+            if (trial[i] > 0) {
+                trial[i]--;
                 return;
             }
-            which[i] = built[i] == 0 ? NONE : built[i] - 1;
+            trial[i] = greatest(i);
         }
     }
 
@@ -771,27 +793,27 @@ public final class LinkHouse {
         if (old == null || young == null) {
             return BAD;
         }
-        int[] which = new int[LIBRARIES];
-        System.arraycopy(standing, 0, which, 0, LIBRARIES);
-        which[lib] = b;
-        gather(spare, which);
-        scratch.clear();
-        System.arraycopy(young.code, 0, scratch.code, 0, young.codeCount);
-        scratch.codeCount = young.codeCount;
+        System.arraycopy(standing, 0, trial, 0, LIBRARIES);
+        trial[lib] = b;
+        gather(spare, trial);
+        Build woven = unused();
+        woven.clear();
+        System.arraycopy(young.code, 0, woven.code, 0, young.codeCount);
+        woven.codeCount = young.codeCount;
         int healed = 0;
         boolean full = isFull(lib);
         for (int k = 0; k < young.rowCount; k++) {
-            emitter.copyRow(scratch, young, k);
-            Row r = scratch.rows[k];
+            emitter.copyRow(woven, young, k);
+            Row r = woven.rows[k];
             Row was = old.named(r.name);
-            for (int i = 0; was != null && was.face == r.face && i < was.members.size(); i++) {
-                Member m = was.members.get(i);
+            for (int i = 0; was != null && was.face == r.face && i < was.memberCount; i++) {
+                Member m = was.members[i];
                 Member now = m.kind == METHOD && !m.bridge && m.access != OWN ? healing(r, m) : null;
                 if (now != null) {
                     healed++;
                     full |= r.bridges() >= BRIDGES;
                     if (!full) {
-                        emitter.addWoven(Judge.addBridge(scratch, r, now, m.type), now);
+                        emitter.addWoven(Judge.addBridge(woven, r, now, m.type), now);
                     }
                 }
             }
@@ -799,11 +821,11 @@ public final class LinkHouse {
         if (healed == 0 || full) {
             return healed == 0 ? NONE : FULL;
         }
-        System.arraycopy(young.text, 0, scratch.text, 0, young.length);
-        scratch.length = young.length;
-        System.arraycopy(young.from, 0, scratch.from, 0, young.from.length);
-        System.arraycopy(young.to, 0, scratch.to, 0, young.to.length);
-        return keepScratch(lib);
+        System.arraycopy(young.text, 0, woven.text, 0, young.length);
+        woven.length = young.length;
+        System.arraycopy(young.from, 0, woven.from, 0, young.from.length);
+        System.arraycopy(young.to, 0, woven.to, 0, young.to.length);
+        return keep(woven, lib);
     }
 
     /** The method of r that a BRIDGE can call for a lost one m, or null. */
@@ -860,8 +882,8 @@ public final class LinkHouse {
     }
 
     private static Member runnable(Row r, long name) {
-        for (int i = 0; i < r.members.size(); i++) {
-            Member m = r.members.get(i);
+        for (int i = 0; i < r.memberCount; i++) {
+            Member m = r.members[i];
             if (m.kind == METHOD && m.name == name && m.fixed && m.block && m.count == 0) {
                 return m;
             }
@@ -1033,8 +1055,10 @@ public final class LinkHouse {
         long within;
         final long[] listed = new long[3 * LISTED];
         final int[] counts = new int[3];
-        final ArrayList<Member> items = new ArrayList<Member>();
-        final ArrayList<Member> members = new ArrayList<Member>();
+        final Member[] items = new Member[ITEMS];
+        int itemCount;
+        final Member[] members = new Member[MEMBERS];
+        int memberCount;
         int useFrom;
         int useCount;
         Member begin;
@@ -1053,13 +1077,27 @@ public final class LinkHouse {
             parent = ANY;
             within = NO;
             Arrays.fill(counts, 0);
-            items.clear();
-            members.clear();
+            itemCount = 0;
+            memberCount = 0;
             useFrom = 0;
             useCount = 0;
             begin = null;
             fieldCode = 0;
             slots = 0;
+        }
+
+        void add(Member m) {
+            if (memberCount < members.length) {
+                members[memberCount] = m;
+                memberCount++;
+            }
+        }
+
+        void addItem(Member m) {
+            if (itemCount < items.length) {
+                items[itemCount] = m;
+                itemCount++;
+            }
         }
 
         void list(int which, long what) {
@@ -1083,8 +1121,8 @@ public final class LinkHouse {
         }
 
         Member method(Member sig) {
-            for (int i = 0; i < members.size(); i++) {
-                Member m = members.get(i);
+            for (int i = 0; i < memberCount; i++) {
+                Member m = members[i];
                 if (m.name == sig.name && m.type == sig.type && m.kind == METHOD && m.count == sig.count
                     && m.param[0] == sig.param[0] && m.param[1] == sig.param[1]
                     && m.param[2] == sig.param[2] && m.param[3] == sig.param[3]) {
@@ -1096,8 +1134,8 @@ public final class LinkHouse {
 
         /** The method of a NAME and PARAMS that is no BRIDGE. */
         Member plain(Member sig) {
-            for (int i = 0; i < members.size(); i++) {
-                Member m = members.get(i);
+            for (int i = 0; i < memberCount; i++) {
+                Member m = members[i];
                 if (m.kind == METHOD && !m.bridge && m.name == sig.name && m.sameParams(sig)) {
                     return m;
                 }
@@ -1106,8 +1144,8 @@ public final class LinkHouse {
         }
 
         Member maker(Member sig) {
-            for (int i = 0; i < members.size(); i++) {
-                Member m = members.get(i);
+            for (int i = 0; i < memberCount; i++) {
+                Member m = members[i];
                 if (m.kind == MAKER && m.sameParams(sig)) {
                     return m;
                 }
@@ -1117,8 +1155,8 @@ public final class LinkHouse {
 
         /** The field of a NAME, and of a type if that is not NO. */
         Member field(long wanted, long type) {
-            for (int i = 0; i < members.size(); i++) {
-                Member m = members.get(i);
+            for (int i = 0; i < memberCount; i++) {
+                Member m = members[i];
                 if (m.kind == FIELD && m.name == wanted && (type == NO || m.type == type)) {
                     return m;
                 }
@@ -1128,15 +1166,15 @@ public final class LinkHouse {
 
         int bridges() {
             int n = 0;
-            for (int i = 0; i < members.size(); i++) {
-                n += members.get(i).bridge ? 1 : 0;
+            for (int i = 0; i < memberCount; i++) {
+                n += members[i].bridge ? 1 : 0;
             }
             return n;
         }
 
         boolean hasMaker() {
-            for (int i = 0; i < members.size(); i++) {
-                if (members.get(i).kind == MAKER) {
+            for (int i = 0; i < memberCount; i++) {
+                if (members[i].kind == MAKER) {
                     return true;
                 }
             }
@@ -1145,8 +1183,8 @@ public final class LinkHouse {
 
         /** Whether a class STARTS this face. */
         boolean hasRunning() {
-            for (int i = 0; i < members.size(); i++) {
-                Member m = members.get(i);
+            for (int i = 0; i < memberCount; i++) {
+                Member m = members[i];
                 if (m.kind == METHOD && !m.bare && !m.fixed) {
                     return true;
                 }
@@ -1155,8 +1193,10 @@ public final class LinkHouse {
         }
     }
 
-    /** A build: its text, its classes, their USES, and what runs. */
+    /** A build: its text, its classes, their USES, and what runs. All that it can need is made with it. */
     private static final class Build {
+        int library;
+        int number;
         final Row[] rows;
         int rowCount;
         final Member[] pool;
@@ -1176,7 +1216,13 @@ public final class LinkHouse {
 
         Build(int rowsMost, int poolMost, int textMost, int tokensMost, int usesMost, int codeMost) {
             rows = new Row[rowsMost];
+            for (int i = 0; i < rowsMost; i++) {
+                rows[i] = new Row();
+            }
             pool = new Member[poolMost];
+            for (int i = 0; i < poolMost; i++) {
+                pool[i] = new Member();
+            }
             text = new byte[textMost];
             from = new int[tokensMost];
             to = new int[tokensMost];
@@ -1201,9 +1247,6 @@ public final class LinkHouse {
             if (rowCount >= rows.length) {
                 return null;
             }
-            if (rows[rowCount] == null) {
-                rows[rowCount] = new Row();
-            }
             Row r = rows[rowCount];
             rowCount++;
             r.clear(this);
@@ -1214,9 +1257,6 @@ public final class LinkHouse {
         Member newMember() {
             if (poolCount >= pool.length) {
                 poolCount = pool.length - 1;
-            }
-            if (pool[poolCount] == null) {
-                pool[poolCount] = new Member();
             }
             Member m = pool[poolCount];
             poolCount++;
@@ -1279,6 +1319,9 @@ public final class LinkHouse {
         int nodeCount;
 
         Reader() {
+            for (int i = 0; i < NODES_MOST; i++) {
+                nodes[i] = new Node();
+            }
             int word = 0;
             int shift = 0;
             for (int i = 0; i < WORDS.length() && word < WORD_COUNT; i++) {
@@ -1307,8 +1350,8 @@ public final class LinkHouse {
                 Row r = readHead();
                 for (int k = 0; r != null && k <= ITEMS && now() != S_END && fault == 0; k++) {
                     readMember(r);
-                    if (fault == 0 && behindHead != END) {
-                        readBody(r.items.get(r.items.size() - 1));
+                    if (fault == 0 && behindHead != END && r.itemCount > 0) {
+                        readBody(r.items[r.itemCount - 1]);
                     }
                 }
                 if (fault == 0) {
@@ -1472,9 +1515,6 @@ public final class LinkHouse {
             if (nodeCount >= nodes.length) {
                 nodeCount = nodes.length - 1;
             }
-            if (nodes[nodeCount] == null) {
-                nodes[nodeCount] = new Node();
-            }
             Node n = nodes[nodeCount];
             nodeCount++;
             n.clear(sort, first);
@@ -1569,18 +1609,18 @@ public final class LinkHouse {
             if (sort != CLASS_NAME && (sort < W_OPEN || sort > W_INT)) {
                 return miss();
             }
-            if (r.items.size() >= ITEMS) {
+            if (r.itemCount >= ITEMS) {
                 return stop(3);
             }
             Member m = build.newMember();
-            r.items.add(m);
+            r.addItem(m);
             behindHead = S_BEGIN;
             if (sort == W_START) {
                 m.kind = START;
                 m.tok = at;
                 return take();
             }
-            r.members.add(m);
+            r.add(m);
             if (sort >= W_OPEN && sort <= W_OWN) {
                 m.access = sort == W_OPEN ? OPEN : sort == W_KIN ? KIN : OWN;
                 if (!take()) {
@@ -2025,7 +2065,7 @@ public final class LinkHouse {
             any.name = ANY;
             any.open = true;
             any.parent = NO;
-            any.members.add(openMaker(builtIn.newMember()));
+            any.add(openMaker(builtIn.newMember()));
             ill.name = ILL;
             ill.open = true;
             ill.told = true;
@@ -2034,8 +2074,8 @@ public final class LinkHouse {
             code.access = OPEN;
             code.name = CODE;
             code.type = INT;
-            ill.members.add(code);
-            ill.members.add(openMaker(builtIn.newMember()));
+            ill.add(code);
+            ill.add(openMaker(builtIn.newMember()));
         }
 
         private static Member openMaker(Member m) {
@@ -2439,8 +2479,8 @@ public final class LinkHouse {
         }
 
         private void items(Row r, int x) {
-            for (int i = 0; i < r.items.size() && fault == 0; i++) {
-                Member m = r.items.get(i);
+            for (int i = 0; i < r.itemCount && fault == 0; i++) {
+                Member m = r.items[i];
                 if (r.face ? oddInFace(m) : oddInClass(r, m)) {
                     fail(8, m.tok);
                     return;
@@ -2503,8 +2543,8 @@ public final class LinkHouse {
         }
 
         private void twice(Row r, Member m) {
-            for (int i = 0; i < r.members.size() && r.members.get(i) != m; i++) {
-                Member e = r.members.get(i);
+            for (int i = 0; i < r.memberCount && r.members[i] != m; i++) {
+                Member e = r.members[i];
                 if (e.kind == m.kind && e.name == m.name && (m.kind == FIELD || e.sameParams(m))) {
                     fail(6, m.tok);
                 }
@@ -2522,8 +2562,8 @@ public final class LinkHouse {
         }
 
         private void above(Row r, int x) {
-            for (int i = 0; i < r.members.size() && fault == 0; i++) {
-                Member n = r.members.get(i);
+            for (int i = 0; i < r.memberCount && fault == 0; i++) {
+                Member n = r.members[i];
                 if (n.kind == METHOD) {
                     int p = world.parent[x];
                     for (int k = 0; k < world.chain[x] && p >= 0; k++) {
@@ -2555,14 +2595,14 @@ public final class LinkHouse {
                 m.kind = MAKER;
                 m.access = r.open ? OPEN : PLAIN;
                 m.tok = r.tok;
-                r.members.add(m);
+                r.add(m);
             }
         }
 
         private void bridges(Row r, int x) {
-            int told = r.members.size();
+            int told = r.memberCount;
             for (int i = 0; i < told && fault == 0; i++) {
-                Member n = r.members.get(i);
+                Member n = r.members[i];
                 if (n.kind == METHOD && n.ofObjects() && !n.bare) {
                     int p = world.parent[x];
                     for (int k = 0; k < world.chain[x] && p >= 0; k++) {
@@ -2601,7 +2641,7 @@ public final class LinkHouse {
             for (int i = 0; i < n.count; i++) {
                 m.param[i] = n.param[i];
             }
-            r.members.add(m);
+            r.add(m);
             return m;
         }
 
@@ -2622,9 +2662,9 @@ public final class LinkHouse {
         }
 
         private void owed(Row r, int x, int k) {
-            ArrayList<Member> those = world.row[k].members;
-            for (int i = 0; i < those.size() && fault == 0; i++) {
-                Member m = those.get(i);
+            Row those = world.row[k];
+            for (int i = 0; i < those.memberCount && fault == 0; i++) {
+                Member m = those.members[i];
                 if (m.kind == METHOD && m.ofObjects() && !m.bridge && world.selected(m, k, x) == null) {
                     fail(10, r.tok);
                 }
@@ -2673,11 +2713,11 @@ public final class LinkHouse {
             for (int i = 0; i < build.rowCount && fault == 0; i++) {
                 row = build.rows[i];
                 self = world.find(row.name);
-                for (int k = 0; k < row.items.size() && fault == 0; k++) {
-                    body(row.items.get(k));
+                for (int k = 0; k < row.itemCount && fault == 0; k++) {
+                    body(row.items[k]);
                 }
-                for (int k = 0; k < row.members.size() && fault == 0; k++) {
-                    Member m = row.members.get(k);
+                for (int k = 0; k < row.memberCount && fault == 0; k++) {
+                    Member m = row.members[k];
                     if (m.kind == MAKER && !m.block && meant(world.parent[self], NO, null, true) == null) {
                         fail(18, row.tok);
                     }
@@ -2687,8 +2727,8 @@ public final class LinkHouse {
         }
 
         private void constants() {
-            for (int i = 0; i < row.members.size(); i++) {
-                Member m = row.members.get(i);
+            for (int i = 0; i < row.memberCount; i++) {
+                Member m = row.members[i];
                 if (m.kind == FIELD && m.fixed && m.last && m.type == INT && m.body != null && fold(m.body)) {
                     m.constant = true;
                     m.worth = folded;
@@ -3179,10 +3219,10 @@ public final class LinkHouse {
             int n = whereLooked(x, makers);
             candidates = 0;
             for (int i = 0; i < n; i++) {
-                ArrayList<Member> those = world.row[places[i]].members;
-                boolean noStatic = world.row[places[i]].face && places[i] != x;
-                for (int k = 0; k < those.size(); k++) {
-                    Member m = those.get(k);
+                Row those = world.row[places[i]];
+                boolean noStatic = those.face && places[i] != x;
+                for (int k = 0; k < those.memberCount; k++) {
+                    Member m = those.members[k];
                     boolean called = makers ? m.kind == MAKER : m.kind == METHOD && m.name == name && !m.bridge;
                     if (called && m.count == count && !(m.fixed && noStatic) && world.isLet(m, places[i], x, self)) {
                         consider(m, args);
@@ -3259,8 +3299,8 @@ public final class LinkHouse {
             for (int i = 0; i < build.rowCount; i++) {
                 rowNumber = i;
                 openRow(build.rows[i]);
-                for (int k = 0; k < row.items.size(); k++) {
-                    Member m = row.items.get(k);
+                for (int k = 0; k < row.itemCount; k++) {
+                    Member m = row.items[k];
                     member = m;
                     if (m.kind == FIELD) {
                         field(m);
@@ -3270,8 +3310,8 @@ public final class LinkHouse {
                         body(m);
                     }
                 }
-                for (int k = 0; k < row.members.size(); k++) {
-                    Member m = row.members.get(k);
+                for (int k = 0; k < row.memberCount; k++) {
+                    Member m = row.members[k];
                     if (m.bridge) {
                         bridge(m, row.plain(m));
                     } else if (m.kind == MAKER && !m.block) {
@@ -3293,8 +3333,8 @@ public final class LinkHouse {
             startTail = NONE;
             fieldTail = NONE;
             int fixedSlots = 0;
-            for (int i = 0; i < row.members.size(); i++) {
-                Member m = row.members.get(i);
+            for (int i = 0; i < row.memberCount; i++) {
+                Member m = row.members[i];
                 if (m.kind == FIELD) {
                     m.code = m.fixed ? fixedSlots : row.slots;
                     fixedSlots += m.fixed ? 1 : 0;
@@ -3387,7 +3427,7 @@ public final class LinkHouse {
                 first = first.next;
             } else if (row.parent != ANY) {
                 build.emit(DO_LOAD, 0);
-                build.emit(DO_MAKER, useOf(U_MAKER, row.parent, world.builtIn.rows[0].members.get(0), NO));
+                build.emit(DO_MAKER, useOf(U_MAKER, row.parent, world.builtIn.rows[0].members[0], NO));
             }
             build.emit(DO_FIELDS, 0);
             for (Node s = first; s != null; s = s.next) {
@@ -3694,11 +3734,11 @@ public final class LinkHouse {
             r.within = old.within;
             System.arraycopy(old.listed, 0, r.listed, 0, old.listed.length);
             System.arraycopy(old.counts, 0, r.counts, 0, old.counts.length);
-            for (int i = 0; i < old.items.size(); i++) {
-                r.items.add(old.items.get(i));
+            for (int i = 0; i < old.itemCount; i++) {
+                r.addItem(old.items[i]);
             }
-            for (int i = 0; i < old.members.size(); i++) {
-                r.members.add(old.members.get(i));
+            for (int i = 0; i < old.memberCount; i++) {
+                r.add(old.members[i]);
             }
             r.begin = old.begin;
             r.fieldCode = old.fieldCode;
@@ -3891,8 +3931,8 @@ public final class LinkHouse {
         /** What x itself must hold to be LINKED; its PARENT and FACES are. */
         private int linkOwn(int x) {
             Row r = world.row[x];
-            for (int i = 0; i < r.members.size() && !r.face; i++) {
-                Member n = r.members.get(i);
+            for (int i = 0; i < r.memberCount && !r.face; i++) {
+                Member n = r.members[i];
                 int p = world.parent[x];
                 for (int k = 0; k < world.chain[x] && p >= 0 && n.kind == METHOD && n.ofObjects(); k++) {
                     Member m = world.row[p].method(n);
@@ -4302,8 +4342,8 @@ public final class LinkHouse {
             }
             f[F_PHASE] = NONE;
             Row r = world.row[x];
-            for (int i = 0; i < r.members.size(); i++) {
-                Member m = r.members.get(i);
+            for (int i = 0; i < r.memberCount; i++) {
+                Member m = r.members[i];
                 if (m.kind == FIELD && m.constant) {
                     statics[x * ITEMS + m.code] = m.worth;
                 }
@@ -4645,7 +4685,7 @@ public final class LinkHouse {
         Build a;
         Build b;
         boolean keeps;
-        final int[] list = new int[ENTRY * 3000];
+        final int[] list = new int[ENTRY * CHANGES_MOST];
         int count;
         int grade;
         int rowA;
@@ -4749,23 +4789,23 @@ public final class LinkHouse {
 
         private int fields(Row x, Row y) {
             int n = 0;
-            for (int i = 0; i < x.members.size(); i++) {
-                Member m = x.members.get(i);
+            for (int i = 0; i < x.memberCount; i++) {
+                Member m = x.members[i];
                 if (m.kind == FIELD) {
                     Member o = y.field(m.name, NO);
                     n += o == null ? note(20, i, NONE) : field(m, o, i, indexIn(y, o));
                 }
             }
-            for (int i = 0; i < y.members.size(); i++) {
-                Member o = y.members.get(i);
+            for (int i = 0; i < y.memberCount; i++) {
+                Member o = y.members[i];
                 n += o.kind == FIELD && x.field(o.name, NO) == null ? note(28, NONE, i) : 0;
             }
             return n;
         }
 
         private static int indexIn(Row r, Member m) {
-            for (int i = 0; i < r.members.size(); i++) {
-                if (r.members.get(i) == m) {
+            for (int i = 0; i < r.memberCount; i++) {
+                if (r.members[i] == m) {
                     return i;
                 }
             }
@@ -4786,15 +4826,15 @@ public final class LinkHouse {
 
         private int methods(Row x, Row y) {
             int n = 0;
-            for (int i = 0; i < x.members.size(); i++) {
-                Member m = x.members.get(i);
+            for (int i = 0; i < x.memberCount; i++) {
+                Member m = x.members[i];
                 if (m.kind == METHOD && !m.bridge) {
                     Member o = y.plain(m);
                     n += o == null ? note(30, i, NONE) : method(m, o, i, indexIn(y, o));
                 }
             }
-            for (int i = 0; i < y.members.size(); i++) {
-                Member o = y.members.get(i);
+            for (int i = 0; i < y.memberCount; i++) {
+                Member o = y.members[i];
                 if (o.kind == METHOD && !o.bridge && x.plain(o) == null) {
                     n += note(o.bare ? 41 : 40, NONE, i);
                 }
@@ -4816,8 +4856,8 @@ public final class LinkHouse {
 
         private int makers(Row x, Row y) {
             int n = 0;
-            for (int i = 0; i < x.members.size(); i++) {
-                Member m = x.members.get(i);
+            for (int i = 0; i < x.memberCount; i++) {
+                Member m = x.members[i];
                 Member o = m.kind == MAKER ? y.maker(m) : null;
                 if (m.kind == MAKER && o == null) {
                     n += note(50, i, NONE);
@@ -4827,8 +4867,8 @@ public final class LinkHouse {
                     n += sameBlocks(m, o) ? 0 : note(53, i, k);
                 }
             }
-            for (int i = 0; i < y.members.size(); i++) {
-                Member o = y.members.get(i);
+            for (int i = 0; i < y.memberCount; i++) {
+                Member o = y.members[i];
                 n += o.kind == MAKER && x.maker(o) == null ? note(54, NONE, i) : 0;
             }
             return n;
@@ -4854,8 +4894,8 @@ public final class LinkHouse {
 
         private static int starts(Row r, int[] into) {
             int n = 0;
-            for (int i = 0; i < r.items.size(); i++) {
-                Member m = r.items.get(i);
+            for (int i = 0; i < r.itemCount; i++) {
+                Member m = r.items[i];
                 if (m.kind == START || m.kind == FIELD && !m.constant) {
                     n = range(m, into, n);
                 }
