@@ -20,6 +20,8 @@ public final class MachineTest {
         nulls();
         eventsAndStates();
         touching();
+        fullText();
+        allBridges();
         Check.end("MachineTest");
     }
 
@@ -462,5 +464,42 @@ public final class MachineTest {
         Check.due("events", c.x.told(4), 2);
         c.x.pick(1, LinkHouse.NONE);
         Check.due("it does not stand", c.x.touch(1, 0, u), LinkHouse.NONE);
+    }
+
+    /** A text of 700 tokens that has as much that runs as it can have. */
+    private static void fullText() {
+        String most = "class c.M{int x;int y=5;static int m(){let c.M a=new c.M();a.f();return a.x;}void f(){" + Check.times("x=y;", 163) + "out x;}}";
+        Check c = with(most);
+        Check.due("run of 700 tokens", c.run("c.M.m"), 1);
+        Check.due("value", c.x.value(), 5);
+        Check.due("steps", c.x.told(0), 170);
+        Check.due("numbers", c.numbers(), "5");
+        Check.due("uses", c.uses(0, 0, 0), "1 c.M; 2 c.M.new(); 7 c.M.f()void; 3 c.M.x:int; 3 c.M.y:int; 4 c.M.x:int");
+        Check.due("701 tokens", c.make(0, most + "class"), -13);
+        Check.due("its place", c.x.place(), most.length());
+    }
+
+    /** Twelve classes with twelve BRIDGES each, and each of them runs. */
+    private static void allBridges() {
+        StringBuilder above = new StringBuilder();
+        StringBuilder heirs = new StringBuilder();
+        for (char n = 'A'; n <= 'L'; n++) {
+            String m = " m(int p,int q,int r,int s){return null;}}";
+            above.append("open class a.").append(n).append(n == 'A' ? "" : " is a." + (char) (n - 1)).append("{open a.").append(n).append(m);
+            heirs.append("open class b.").append(n).append(" is a.L{open b.").append(n).append(m);
+        }
+        Check c = with(above.toString());
+        c.stand(1, heirs.toString());
+        Check.due("uses", c.x.uses(1, 0), 180);
+        for (int k = 0; k < 12; k++) {
+            Check.due("members of class " + k, c.x.members(1, 0, k), 14);
+            char n = (char) ('A' + k);
+            c.stand(2 + k / 8, "class c.M{static void m(){let a.A t=new b." + n + "();t.m(1,2,3,4);out t.m(1,2,3,4)==null;}}");
+            Check.due("run", c.run("c.M.m"), 1);
+            Check.due("steps", c.x.told(0), 23);
+            Check.due("numbers", c.numbers(), "1");
+            c.x.pick(2 + k / 8, LinkHouse.NONE);
+        }
+        Check.due("the last bridge", c.member(1, 0, 11, 13), "bridge open a.A m(int,int,int,int)");
     }
 }
