@@ -31,6 +31,27 @@ final class Check {
         }
     }
 
+    /** A text of library 1 has a FAULT, at the place of '@' in it, beside a build of library 0; no build is made, THE TAPE is empty. */
+    static void fault(String base, int fault, String text) {
+        Check c = new Check();
+        c.stand(0, base);
+        int place = text.indexOf('@');
+        String told = place < 0 ? text : text.substring(0, place) + text.substring(place + 1);
+        due(text, c.make(1, told), -10 - fault);
+        due("place in " + text, c.x.place(), place);
+        due("the tape behind " + text, c.x.told(6), 0);
+        due("builds behind " + text, c.x.builds(1), 0);
+    }
+
+    /** A text of library 1 has no FAULT, beside a build of library 0. */
+    static Check fine(String base, String text) {
+        Check c = new Check();
+        c.stand(0, base);
+        due(text, c.make(1, text), 0);
+        due("place in " + text, c.x.place(), LinkHouse.NONE);
+        return c;
+    }
+
     /** THE TAPE has just these bytes. */
     void tape(String bytes) {
         x.cut(x.told(6));

@@ -29,21 +29,11 @@ public final class MakeTest {
     }
 
     private static void fault(int fault, String text) {
-        Check c = new Check();
-        c.stand(0, BASE);
-        int place = text.indexOf('@');
-        String told = place < 0 ? text : text.substring(0, place) + text.substring(place + 1);
-        Check.due(text, c.make(1, told), -10 - fault);
-        Check.due("place in " + text, c.x.place(), place);
-        Check.due("the tape behind " + text, c.x.told(6), 0);
-        Check.due("builds behind " + text, c.x.builds(1), 0);
+        Check.fault(BASE, fault, text);
     }
 
     private static void fine(String text) {
-        Check c = new Check();
-        c.stand(0, BASE);
-        Check.due(text, c.make(1, text), 0);
-        Check.due("place in " + text, c.x.place(), LinkHouse.NONE);
+        Check.fine(BASE, text);
     }
 
     /** In a method of class a.A, that is no heir of anything. */
