@@ -368,8 +368,8 @@ public final class EdgesOfTextsTest {
         fineIn(opened(9, "while (0) return ; "));
         inMethod(3, opened(9, "if (1) { } else { @{ } } "));
         inMethod(3, opened(9, "if (1) out @1; "));
-        fineIn(Check.times("if (1) ", 10) + "out 1;".replace("out 1", "return "));
-        inMethod(3, Check.times("if (1) ", 10) + "@out 1;".replace("@out ", "out @"));
+        fineIn(Check.times("if (1) ", 10) + "return ;");
+        inMethod(3, Check.times("if (1) ", 10) + "out @1;");
         inMethod(3, Check.times("if (1) ", 10) + "if (@1) return ;");
         // An else's S is within its if, as the other is.
         fineIn("if (1) return ; else " + Check.times("if (1) return ; else ", 9) + "return ;");
