@@ -26,6 +26,8 @@ public final class EdgesOfBuildsTest {
         superMakers();
         usesOnce();
         usesOfBridges();
+        usesFitByEach();
+        eachParamCounts();
         emptyBuild();
         Check.end("EdgesOfBuildsTest");
     }
@@ -628,6 +630,58 @@ public final class EdgesOfBuildsTest {
         Check.due("uses", c.uses(1, 0, 1), "18 a.P; 2 a.P.new(); 7 a.Q.f()a.Q; 7 a.Q.g()a.Q; 17 a.Q>a.P");
         Check.due("bare ones have none", c.uses(1, 0, 3), "19 a.F");
         Check.due("uses", c.uses(1, 0, 4), "19 a.G; 7 a.H.g()a.H; 17 a.H>a.G; 17 a.H>a.F");
+    }
+
+    /** 17 by let, by =, by each of ARGS, by return, by throw, each alone. */
+    private static void usesFitByEach() {
+        String world = "class a.P { } class a.Q is a.P { } class a.E is z.Ill { } class a.A { a.P p; static a.P s; static void f(a.P p, z.Any q, a.P r) { } new() { } new(a.P p) { } ";
+        String[][] all = {{"void m(a.Q v) { let a.P w = v; }", "17 a.Q>a.P"}, {"a.P m(a.Q v) { return v; }", "17 a.Q>a.P"}, {"void m(a.Q v) { p = v; }", "17 a.Q>a.P; 4 a.A.p:a.P"}, {"void m(a.Q v) { a.A.s = v; }", "17 a.Q>a.P; 6 a.A.s:a.P"}, {"void m(a.P w, a.Q v) { w = v; }", "17 a.Q>a.P"},
+            {"void m(a.Q v) { f(null, v, v); }", "17 a.Q>a.P; 9 a.A.f(a.P,z.Any,a.P)void"}, {"void m(a.Q v, a.P w) { f(w, v, w); }", "9 a.A.f(a.P,z.Any,a.P)void"}, {"void m(a.Q v) { new a.A(v); }", "1 a.A; 17 a.Q>a.P; 2 a.A.new(a.P)"}, {"void m(a.E e) { throw e; }", "17 a.E>z.Ill"}, {"void m(z.Ill e) { throw e; }", ""},
+            {"z.Any m(a.Q v) { return v; }", ""}, {"a.Q m(a.Q v) { return v; }", ""}, {"a.P m() { return null; }", ""}, {"a.P m(a.Q v) { return (a.P) v; }", "13 a.P"}, {"int m(a.Q v, a.P w) { return v == w; }", ""}, {"a.P k = new a.Q();", "1 a.Q; 2 a.Q.new(); 17 a.Q>a.P"}, {"void m(a.Q v) { p = (v); }", "17 a.Q>a.P; 4 a.A.p:a.P"}};
+        for (String[] each : all) {
+            Check.due(each[0], fine(world + each[0] + " }").uses(1, 0, 3), each[1]);
+        }
+        Check.due("by super( )", fine("class a.P { new(a.P p) { } } class a.Q is a.P { new(a.Q q) { super(q); } }").uses(1, 0, 1), "18 a.P; 17 a.Q>a.P; 2 a.P.new(a.P)");
+    }
+
+    /** NAME and PARAMS are the same only if each of the types is. */
+    private static void eachParamCounts() {
+        String[] types = {"int", "int", "int", "int"};
+        for (int n = 1; n <= 4; n++) {
+            for (int other = 0; other < n; other++) {
+                String same = params(n, types, -1);
+                String not = params(n, types, other);
+                fine("class a.A { void f(" + same + ") { } void f(" + not + ") { } new(" + same + ") { } new(" + not + ") { } }");
+                fault(6, "class a.A { void f(" + same + ") { } int @f(" + same + ") { return 1; } }");
+                fault(6, "class a.A { new(" + same + ") { } @new(" + same + ") { } }");
+                fine("class a.P { open void f(" + same + ") { } } class a.A is a.P { int f(" + not + ") { return 1; } }");
+                fault(9, "class a.P { open void f(" + same + ") { } } class a.A is a.P { int @f(" + same + ") { return 1; } }");
+                fault(10, "face a.F { void f(" + same + "); } class @a.A as a.F { open void f(" + not + ") { } }");
+                fine("face a.F { void f(" + same + "); } class a.A as a.F { open void f(" + same + ") { } }");
+                String args = same.replaceAll("int \\w", "1");
+                String mixed = not.replaceAll("int \\w", "1").replaceAll("z.Any \\w", "this");
+                Check c = fine("class a.A { void f(" + same + ") { } void f(" + not + ") { } void g() { f(" + args + "); f(" + mixed + "); } }");
+                Check.due("uses", c.uses(1, 0, 0), "7 a.A.f(" + same.replaceAll(" [p-s]", "").replace(", ", ",") + ")void; 7 a.A.f(" + not.replaceAll(" [p-s]", "").replace(", ", ",") + ")void");
+                // In THE WORLD: another PARAMS is another method, another maker.
+                Check w = new Check();
+                w.stand(0, "open class a.A { open void f(" + same + ") { } open new(" + same + ") { } }");
+                w.stand(1, "class b.B { void g(a.A v) { v.f(" + args + "); new a.A(" + args + "); } }");
+                w.make(0, "open class a.A { open void f(" + not + ") { } open new(" + not + ") { } }");
+                w.x.pick(0, 1);
+                Check.due("both are broken", w.x.broken(), 2);
+                Check.due("no method", w.x.brokenAt(0, 2) * 10 + w.x.brokenAt(1, 2), 55);
+                Check.due("differ", w.x.differ(0, 0, 1), 4);
+                Check.due("gone and new", w.changes(), "30 0 0 0 -; 40 0 0 - 0; 50 0 0 1 -; 54 0 0 - 1");
+            }
+        }
+    }
+
+    private static String params(int n, String[] types, int other) {
+        StringBuilder s = new StringBuilder();
+        for (int i = 0; i < n; i++) {
+            s.append(i == 0 ? "" : ", ").append(i == other ? "z.Any" : types[i]).append(" ").append((char) ('p' + i));
+        }
+        return s.toString();
     }
 
     private static void emptyBuild() {

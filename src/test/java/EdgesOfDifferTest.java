@@ -18,6 +18,7 @@ public final class EdgesOfDifferTest {
         wovenClasses();
         wovenFull();
         wovenWorld();
+        wovenKeeps();
         Check.end("EdgesOfDifferTest");
     }
 
@@ -122,6 +123,7 @@ public final class EdgesOfDifferTest {
         differs("face a.A { void f(); open int g() { return 1; } }", "face a.A { bare void f(); int g() { return 1; } }", "", 0);
         differs("face a.A { int x = 1; }", "face a.A { open static final int x = 2 - 1; }", "", 0);
         differs("class a.A { }", "class a.A { new() { } }", "", 0);
+        differs("class a.A { new() { } }", "class a.A { }", "", 0);
         differs("open class a.A { }", "open class a.A { open new() { } }", "", 0);
         // BRIDGES are no methods of these.
         differs("class a.P { open e.P f() { return null; } } class a.A is a.P { open e.P f() { return null; } }", "class a.P { open e.P f() { return null; } } class a.A is a.P { open e.Q f() { return null; } }", "31 1 1 0 0", 3);
@@ -333,6 +335,33 @@ public final class EdgesOfDifferTest {
         Check.due("sixteen builds", f.x.weave(0, 0, 1), LinkHouse.FULL);
         Check.due("nothing is healed", f.x.weave(1, 0, 1), LinkHouse.NONE);
         Check.due("no such build", f.x.weave(1, 0, 8), LinkHouse.BAD);
+    }
+
+    /** A woven build is b in all else: heads, members, USES, CONSTANTS, starts, what runs. */
+    private static void wovenKeeps() {
+        String text = "open final class a.A is a.P as e.F, e.H in a.N only a.A, a.A { open # f() { out 1; return null; } int x = 3; static int y; static final int k = 7; start { y = x2() + k; } static int x2() { return a.A.k * 2; } own new(int p) { super(5); x = p; } open new() { super(5); } } "
+            + "class a.N with a.A, a.A { own static int o = 4; static void m() { let a.A v = new a.A(6); out v.x; out v.code; out a.A.y; out v.f() == null; v.g(); out a.F.z; } } open bare class a.P is z.Ill { open int x; new(int p) { code = p; } open bare # f(); open e.P g() { out 2; return f(); } } face a.F as e.G only a.P { int z = a.A.y; bare int b(); }";
+        Check c = two(text.replace("#", "e.P"), text.replace("#", "e.Q"));
+        Check.due("woven", c.x.weave(0, 0, 1), 2);
+        Check.due("classes", c.x.classes(0, 2), 4);
+        for (int k = 0; k < 4; k++) {
+            Check.due("head", c.head(0, 2, k), c.head(0, 1, k));
+            Check.due("members", c.members(0, 2, k), c.members(0, 1, k) + (k == 0 ? "; bridge open e.P f()" : ""));
+            Check.due("uses", c.uses(0, 2, k), c.uses(0, 1, k) + (k == 0 ? "; 7 a.A.f()e.Q; 17 e.Q>e.P" : ""));
+        }
+        Check.due("a head", c.head(0, 2, 0), "open final class a.A is a.P as e.F,e.H in a.N only a.A,a.A");
+        Check.due("no difference", c.x.differ(0, 1, 2) + c.x.differ(0, 2, 1), 0);
+        Check.due("the same to another", c.x.differ(0, 0, 2), c.x.differ(0, 0, 1));
+        for (int build = 1; build <= 2; build++) {
+            c.x.pick(0, build);
+            Check.due("run", c.run("a.N.m"), 1);
+            Check.due("numbers", c.numbers(), "6 5 21 1 1 2 1 21");
+            Check.due("broken", c.x.broken(), 0);
+            Check.due("stale", c.x.stale(), 0);
+        }
+        Check.due("text", c.x.text(0, 2), c.x.text(0, 1));
+        Check.due("made again", c.x.make(0), 3);
+        Check.due("it is b", c.x.differ(0, 1, 3), 0);
     }
 
     /** In THE WORLD as it is, with b in place of the library's. */

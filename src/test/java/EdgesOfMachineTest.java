@@ -23,6 +23,11 @@ public final class EdgesOfMachineTest {
         startThrows();
         startsOfFaces();
         constantsAhead();
+        constantsAsFields();
+        startsHaveLocals();
+        triesEnd();
+        facesNotStarted();
+        fieldsAnew();
         staticsAtFirst();
         orderOfNew();
         orderOfGetAndPut();
@@ -452,6 +457,54 @@ public final class EdgesOfMachineTest {
         Check c = with("class c.M { static int x = p(); static final int k = 5; static int p() { k2(); return k; } static void k2() { out k; } start { k = 6; out k; } static void m() { out x; } }");
         Check.due("run", c.run("c.M.m"), 1);
         Check.due("the value stands for it", c.numbers(), "5 5 5");
+    }
+
+    /** What was no CONSTANT when it was asked for is got as a field is; the CONSTANTS are set ahead of all E's. */
+    private static void constantsAsFields() {
+        Check c = new Check();
+        c.stand(0, "open class a.A { open static int k; open static int l; open static int x; }");
+        c.stand(1, "open class b.B { open static int get() { out a.A.k; out a.A.l; return a.A.x; } static void m() { out a.A.x; out a.A.k; } }");
+        c.x.pick(0, LinkHouse.NONE);
+        Check.due("now they are", c.make(0, "open class a.A { open static int x = 1 + b.B.get(); open static final int l = 6; open static final int k = 5; start { out k; k = 8; out k; b.B.get(); } }"), 1);
+        c.x.pick(0, 1);
+        Check.due("run", c.run("b.B.m"), 1);
+        Check.due("set ahead, put behind", c.numbers(), "5 6 5 5 8 6 1 8");
+    }
+
+    private static void startsHaveLocals() {
+        outs("class c.M { static int x = 2 + f(3); start { let int i = 0; while (i < 3) { let int k = i * 2; out k + f(i); i = i + 1; } let int j = i * 2; let z.Any v = new c.M(); out j + (i + f(j)); out v == null; } static int y = 4 + f(x); start { let int i = 9; { let int k = 8; out i + k; } out f(i); } static int f(int p) { let int q = p; return q; } static void m() { out x; out y; } }",
+            "0 3 6 15 0 17 9 5 9");
+    }
+
+    /** A try ends with what stands in it, however that is left. */
+    private static void triesEnd() {
+        outs("class c.E is z.Ill { } class c.M { static int r(int p) { try { if (p) return 5; } catch (c.E e) { out 9; } return 6; } static int w(int p) { while (1) { try { try { if (p) return 7; p = 1; } catch (c.E e) { out 8; } } catch (z.Ill e) { out 9; } } throw null; } "
+            + "static void m() { try { out r(1); throw new c.E(); } catch (c.E e) { out 1; } try { out r(0); throw new c.E(); } catch (c.E e) { out 2; } try { out w(0); throw new c.E(); } catch (c.E e) { out 3; } out t(); try { q(); } catch (c.E e) { out 11; } } "
+            + "static int t() { try { throw new c.E(); } catch (c.E e) { try { return r(1) + 5; } catch (c.E f) { out 4; } } return 0; } static void q() { try { r(1); } catch (c.E e) { out 12; } throw new c.E(); } }", "5 1 6 2 7 3 10 11");
+    }
+
+    /** A call by a face, of whatever, a GET and a PUT START no face. */
+    private static void facesNotStarted() {
+        String o = "class c.O { static int o(int p) { out p; return p; } } ";
+        outs(o + "face c.F { int x = c.O.o(1); int f(); } class c.M as c.F { int i; open int f() { return 2; } static void m() { let c.F v = new c.M(); out v.f(); let c.M w = new c.M(); w.i = 3; out w.i; out v ask c.F; out c.F.x; } }", "2 3 1 1 1");
+        // The first member alone is what makes it one that is STARTED, or the last.
+        outs(o + "face c.F { int f() { return 1; } int x = c.O.o(1); int g(); } face c.G { static int s() { return 1; } int g(); int x = c.O.o(2); } face c.H { int y = c.O.o(3); own int h() { return 1; } } class c.M as c.F, c.G, c.H { open int g() { return 4; } static void m() { out 5; } }", "1 3 5");
+    }
+
+    /** Behind fresh() and pick() fields and statics are 0 and null again. */
+    private static void fieldsAnew() {
+        Check c = with("class c.M { static int n; static c.M last; int x; c.M y; static int m() { out n; out last == null; last = new c.M(); out last.x; out last.y == null; n = 7; last.x = 8; last.y = last; return n; } }");
+        for (int turn = 0; turn < 3; turn++) {
+            Check.due("run", c.run("c.M.m"), 1);
+            Check.due("at first", c.numbers(), "0 1 0 1");
+            Check.due("its field", c.x.fieldOf(1, 0) * 10 + c.x.fieldOf(1, 1), 81);
+            if (turn == 0) {
+                c.x.fresh();
+            } else {
+                c.x.pick(0, 0);
+            }
+            Check.due("none", c.x.fieldOf(1, 0), 0);
+        }
     }
 
     /** Statics and fields are 0 and null at first. */

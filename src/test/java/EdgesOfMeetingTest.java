@@ -473,6 +473,9 @@ public final class EdgesOfMeetingTest {
             }
         }
         Check.due("no fifth", c.x.brokenAt(4, 0), LinkHouse.BAD);
+        Check.due("broken once more", c.x.broken(), 4);
+        Check.due("no fifth", c.x.brokenAt(4, 0), LinkHouse.BAD);
+        Check.due("the fourth", c.x.brokenAt(3, 0), 4);
         Check.due("no such", c.x.brokenAt(0, 3), LinkHouse.BAD);
         c.make(1, "");
         c.x.fresh();
@@ -516,6 +519,12 @@ public final class EdgesOfMeetingTest {
         Check.due("all but b.B.p and the hidden one", c.x.stale(), 5);
         c.x.pick(2, LinkHouse.NONE);
         Check.due("without c.C", c.x.stale(), 4);
+        Check d = new Check();
+        d.stand(3, "open class d.D { open static final int k = 1; }");
+        d.stand(0, "class a.A { int f() { return d.D.k; } }");
+        d.stand(4, "class e.E { int f() { return d.D.k + d.D.k; } }");
+        d.x.pick(3, LinkHouse.NONE);
+        Check.due("of the first library and of the last", d.x.stale(), 2);
     }
 
     /** The greatest build of library 0 first, then of 1, and so on; how many were tried with that. */

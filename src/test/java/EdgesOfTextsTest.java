@@ -24,6 +24,8 @@ public final class EdgesOfTextsTest {
         nestedExpressions();
         nestedSupers();
         nestedRounds();
+        nestedEverywhere();
+        headsNeedNames();
         notNested();
         nearestIf();
         leftFirst();
@@ -479,6 +481,53 @@ public final class EdgesOfTextsTest {
         inMethod(2, opened(9, "out (b.P)@"));
         inMethod(2, opened(9, "out (@;"));
         inMethod(3, opened(10, "@(b.P) this; "));
+    }
+
+    /** ( ) and ARGS are E's wherever they stand: right of each sign, in each of ARGS, behind '.', in front of ask. */
+    private static void nestedEverywhere() {
+        String[] in = {"1 < %", "1 == %", "1 + %", "1 - %", "1 * %", "% < 1", "% + 1", "% * 1", "2 < 1 * %", "1 + 2 * %", "1 == 2 - %", "2 * 3 * %", "1 + 2 + %", "% ask a.A", "% == null ask a.A"};
+        for (String e : in) {
+            fault(3, "class a.A { int x = " + e.replace("%", rounded(12, "@1")) + "; }");
+            inMethod(3, "out " + e.replace("%", rounded(10, "@1")) + ";");
+            if (!e.contains("ask")) {
+                fine("class a.A { int x = " + e.replace("%", rounded(11, "1")) + "; }");
+                fineIn("out " + e.replace("%", rounded(9, "1")) + ";");
+            }
+        }
+        String[] calls = {"this.f(%)", "this.x.f(%)", "f(1, %)", "f(1, 2, 3, %)", "1 + f(%)", "new a.A(%)", "(a.A) new a.A(%)", "a.A.g(%)", "super.f(%)", "b.F.super.f(%)"};
+        for (String e : calls) {
+            int n = e.startsWith("(") ? 10 : 11;
+            fault(3, "class a.A { int x = " + e.replace("%", rounded(n, "@1")) + "; }");
+            inMethod(3, "out " + e.replace("%", rounded(n - 2, "@1")) + ";");
+        }
+    }
+
+    /** Behind is, as, in, with, only, and each ',', there stands a C. */
+    private static void headsNeedNames() {
+        for (String word : new String[] {"is", "as", "in", "with", "only"}) {
+            for (String none : new String[] {"{", "x", "int", "1", ",", "class"}) {
+                fault(2, "class a.A " + word + " @" + none + " { }");
+            }
+            fault(1, "class a.A " + word + " @$ { }");
+            fault(2, "class a.A " + word + "@");
+            fault(2, "class a.A " + word + " b.F @b.F { }");
+            if (word.equals("is") || word.equals("in")) {
+                fault(2, "class a.A " + word + " b.F@, b.F { }");
+            } else {
+                fault(2, "class a.A " + word + " b.F, @x { }");
+                fault(2, "class a.A " + word + " b.F, @{ }");
+                fault(2, "class a.A " + word + " b.F,@");
+            }
+        }
+        fault(2, "class a.A { } @is");
+        fault(2, "class @is a.A { }");
+        fault(2, "open@");
+        fault(2, "open final@");
+        fault(2, "final @open class a.A { }");
+        fault(2, "class a.A only a.A @with a.A { }");
+        fault(2, "class a.A with a.A @in a.A { }");
+        fault(2, "class a.A in a.A @as a.A { }");
+        fault(2, "class a.A as a.A @is a.A { }");
     }
 
     /** What stands beside is not within: sums, products, comparisons, '.', ask, ARGS one beside the other. */

@@ -19,9 +19,9 @@ public final class RoomTest {
 
     public static void main(String[] args) throws ReflectiveOperationException {
         int[][] texts = {words(chain()), words(heirs()), words(rich("")), words(rich("out 1; ")), words(faulty()), words("b.A.go"), words("c.B.go")};
-        // The first house is there for what Java itself makes once, as it loads classes.
-        long all = 0;
-        for (int turn = 0; turn < 3; turn++) {
+        // Java itself makes some things now and then (as it loads or compiles classes); what calls make comes with each house.
+        long least = Long.MAX_VALUE;
+        for (int turn = 0; turn < 8; turn++) {
             LinkHouse x = new LinkHouse();
             count(x);
             int objectsAhead = objects;
@@ -30,7 +30,7 @@ public final class RoomTest {
             Check.due("fields and elements of a new house are few: " + elements, elements <= ELEMENTS_MOST ? 1 : 0, 1);
             long ahead = bytes();
             int calls = callAll(x, texts);
-            all = bytes() - ahead;
+            least = Math.min(least, bytes() - ahead);
             Check.due("calls are not too many: " + calls, calls <= 512 ? 1 : 0, 1);
             Check.due("all builds were made", x.told(7), 16);
             Check.due("builds of library 2", x.builds(2) > 2 ? x.classes(2, 0) + x.classes(2, 1) + x.classes(2, 2) : 0, 12);
@@ -39,7 +39,7 @@ public final class RoomTest {
             Check.due("objects and arrays behind the calls", objects, objectsAhead);
             Check.due("fields and elements behind the calls", elements, elementsAhead);
         }
-        Check.due("bytes that the calls made", all, 0);
+        Check.due("bytes that the calls made", least, 0);
         Check.end("RoomTest");
     }
 
