@@ -1,3 +1,6 @@
+import java.util.regex.Matcher;
+import java.util.regex.Pattern;
+
 /** Part 1 of the document: each sentence that names a bound, at the bound and behind it. */
 public final class EdgesOfTextsTest {
     private static final String BASE = "open class b.P { open new(int p) { } open int m() { return 1; } } open face b.F { }";
@@ -14,6 +17,7 @@ public final class EdgesOfTextsTest {
         ofOneTokenTheLeast();
         theEnd();
         tokens701();
+        eachAsThe701st();
         classes13();
         members21();
         faces5();
@@ -255,6 +259,31 @@ public final class EdgesOfTextsTest {
         fault(3, most + " @open");
         fault(2, most + " @}");
         fault(1, most + "@%");
+    }
+
+    /** Whatever token of a text the 701st is: it is too much, and 1 ahead of that. */
+    private static void eachAsThe701st() {
+        String[] texts = {
+            "open final class a.A is b.P as b.F, b.G in a.H with a.B, a.D only a.X, a.Y { open static final int x = 1; own a.A y; kin bare b.P m(int p, a.A q); }",
+            "face a.F as b.F { void f() { } bare a.A g(b.P p); int x = 1 + 2 - 3 * 4 == 5; int y = 6 < 7; new(int p, int q) { super(p, 1); } own new() { } start { x = 1; } }",
+            "class a.A { void f() { let int q = p; if (x) y; else z; while (1) { } return; return q; throw n; try { } catch (z.Ill e) { } out 1; x.y = z; super(); { } } }",
+            "class a.A { int x = (1 + (2)); int y = null.f(this, 1).g ask b.P; int z = f(1, 2) + new b.P(1) + (b.P) w.v; int v = b.P.n + b.P.m(1) + b.F.super.m(2) + super.m(3) + (b.P.n); }",
+        };
+        for (String text : texts) {
+            Matcher m = Pattern.compile("[a-z]\\.[A-Z]\\w*|\\w+|==|\\S").matcher(text);
+            for (int n = 0; m.find(); n++) {
+                String ahead = padding(700 - n) + text.substring(0, m.start());
+                fault(3, ahead + "@" + text.substring(m.start()));
+                fault(1, ahead + "@#" + text.substring(m.start()));
+                fault(1, padding(699 - n) + text.substring(0, m.end()) + "@#");
+            }
+        }
+    }
+
+    /** A class of that many tokens. */
+    private static String padding(int tokens) {
+        int left = tokens - 10;
+        return "class a.Q{void f(){" + (left % 2 == 0 ? Check.times("{}", left / 2) : "out 1;" + Check.times("{}", (left - 3) / 2)) + "}}";
     }
 
     /** The NAME of a 13th class. */
