@@ -8,6 +8,7 @@ public final class EdgesOfBuildsTest {
         steps();
         toldAlready();
         headsOneByOne();
+        eachOfAHead();
         onlyAcrossLibraries();
         membersOneByOne();
         aboveOneByOne();
@@ -15,6 +16,7 @@ public final class EdgesOfBuildsTest {
         bridges();
         bridges13();
         owed();
+        owedFromFarAbove();
         constants();
         constantsAcross();
         wrapping();
@@ -22,6 +24,8 @@ public final class EdgesOfBuildsTest {
         ends();
         puts();
         statements();
+        unitsAlone();
+        builtInNamed();
         candidates();
         superMakers();
         usesOnce();
@@ -29,6 +33,7 @@ public final class EdgesOfBuildsTest {
         usesFitByEach();
         eachParamCounts();
         emptyBuild();
+        behindWhatWasNotKept();
         Check.end("EdgesOfBuildsTest");
     }
 
@@ -218,6 +223,31 @@ public final class EdgesOfBuildsTest {
         }
     }
 
+    /** 5 at that C, wherever in a head it stands, whatever of the head lacks; the first in the text is told. */
+    private static void eachOfAHead() {
+        String[][] parts = {{" is ", "a.P"}, {" as ", "a.F", "a.G", "a.H", "a.I"}, {" in ", "a.O"}, {" with ", "a.W", "a.V"}, {" only ", "a.X", "a.A", "a.P"}};
+        String others = " { } class a.P { } face a.F { } face a.G { } face a.H { } face a.I { } class a.O with a.A { } class a.W in a.A { } class a.V in a.A { } class a.X { }";
+        fine("class a.A" + head(parts, 31, -1, -1) + others);
+        for (int mask = 1; mask < 32; mask++) {
+            for (int part = 0; part < 5; part++) {
+                for (int k = 1; k < parts[part].length && (mask >> part & 1) != 0; k++) {
+                    fault(5, "class a.A" + head(parts, mask, part, k) + others);
+                }
+            }
+        }
+    }
+
+    /** The head's parts of that mask; the C k of one part is another one, at '@'. */
+    private static String head(String[][] parts, int mask, int part, int k) {
+        StringBuilder s = new StringBuilder();
+        for (int i = 0; i < parts.length; i++) {
+            for (int j = 1; j < parts[i].length && (mask >> i & 1) != 0; j++) {
+                s.append(j == 1 ? parts[i][0] : ", ").append(i == part && j == k ? "@a.Z" : parts[i][j]);
+            }
+        }
+        return s.toString();
+    }
+
     /** 'Only' tells names: another library's class of such a name is in it. */
     private static void onlyAcrossLibraries() {
         Check c = new Check();
@@ -389,6 +419,18 @@ public final class EdgesOfBuildsTest {
         fine("open bare class a.P { kin bare int f(); } class b.A is a.P { kin int f() { return 1; } }");
     }
 
+    /** 10 by whatever of PARENTS or ALL FACES, near or far. */
+    private static void owedFromFarAbove() {
+        fault(10, "bare class a.G { bare int f(); } bare class a.P is a.G { } class @a.A is a.P { }");
+        fault(10, "bare class a.G { bare int f(); } bare class a.P is a.G { bare int g(); } bare class a.Q is a.P { } class @a.A is a.Q { int g() { return 1; } }");
+        fault(10, "face a.F { int f(); } bare class a.G as a.F { } bare class a.P is a.G { } class @a.A is a.P { }");
+        fault(10, "face a.F { int f(); } face a.G as a.F { } face a.H as a.G { } class @a.A as a.H { }");
+        fault(10, "face a.E { } face a.F { int f(); } class @a.A as a.E, a.F { }");
+        fault(10, "face a.E { } face a.F { int f(); } face a.G { } class @a.A as a.E, a.G, a.F { int g() { return 1; } }");
+        fine("bare class a.G { bare int f(); } bare class a.P is a.G { int f() { return 1; } } class a.A is a.P { }");
+        fine("face a.F { int f(); } bare class a.G { open int f() { return 1; } } bare class a.P is a.G as a.F { } class a.A is a.P { }");
+    }
+
     /** Static, final, of type int, whose E has only NUMBERS, ( ), + - * < == and NAMES and C.NAMES that mean CONSTANTS known by then. */
     private static void constants() {
         Check c = fine("class a.A { static final int a1 = 1; final int b1 = 1; static int c1 = 1; static final a.A d1 = null; static final int e1; static final int f1 = null == null; static final int g1 = c1; static final int h1 = i1; static final int i1 = 5; "
@@ -547,6 +589,46 @@ public final class EdgesOfBuildsTest {
         inMethod(19, "@((f(1)));");
     }
 
+    /** Of a UNIT the last part counts: a call stands alone, a field is put, nothing else. */
+    private static void unitsAlone() {
+        String o = "class a.A { a.A o; int x; a.A f() { return this; } void g() { % } }";
+        for (String s : new String[] {"o.f();", "o.o.f();", "this.f().o.f();", "f().f().f();", "new a.A().o.f();", "o.x = 1;", "o.o.x = 1;", "f().x = 1;", "o.f().o.x = 1;", "new a.A().o = o;", "this.f().x = 1;"}) {
+            fine(o.replace("%", s));
+        }
+        for (String s : new String[] {"o.o;", "f().o;", "o.f().x;", "f().f().o;", "o.f() ask a.A;", "f().f() ask a.A;", "f() ask a.A;", "new a.A().f().o;", "new a.A().o.o;", "(o).o;", "(a.A) f().f();"}) {
+            fault(19, o.replace("%", "@" + s));
+        }
+        fine(o.replace("%", "(o).f(); (o).o.x = 1; (o.o).x = 1;"));
+        for (String s : new String[] {"o.f() = o;", "f().f() = o;", "o.o.f() = o;", "o ask a.A = 1;", "o.o ask a.A = 1;", "f() = o;", "(o.o) = o;", "(a.A) o.o = o;", "new a.A() = o;"}) {
+            fault(15, o.replace("%", "@" + s));
+        }
+    }
+
+    /** z.Any and z.Ill are named as others are: z.Any has no FIELD and no method, z.Ill its code. */
+    private static void builtInNamed() {
+        inMethod(12, "z.Any.@m();");
+        inMethod(12, "z.Ill.@m();");
+        inMethod(11, "out z.Any.@x;");
+        inMethod(11, "z.Any.@x = 1;");
+        inMethod(11, "out z.Ill.@x;");
+        inMethod(14, "out z.Ill.@code;");
+        inMethod(14, "z.Ill.@code = 1;");
+        inMethod(13, "out @1 ask z.Any;");
+        inMethod(13, "out @p ask z.Ill;");
+        inMethod(13, "let z.Any v = (z.Any) @1;");
+        inMethod(18, "new @z.Any(1);");
+        inMethod(18, "new @z.Ill(null);");
+        inMethod(11, "let z.Any v = null; out v.@code;");
+        inMethod(12, "let z.Any v = null; v.@f(1);");
+        fineIn("let z.Ill v = new z.Ill(); v.code = v.code + 1; out v ask z.Any; let z.Any w = v; out w ask z.Ill; throw (z.Ill) new z.Any();}" + " int g() {");
+        // z.Ill FITS z.Any and itself, no class that stands behind them, and not that one's PARENT or FACES.
+        String o = "open class a.A is a.P as a.F { void f(z.Ill e, z.Any y) { % } } open class a.P { } face a.F { }";
+        fine(o.replace("%", "let z.Any v = e; let z.Ill w = e; let z.Any x = y;"));
+        for (String s : new String[] {"let a.P v = @e;", "let a.A v = @e;", "let a.F v = @e;", "let z.Ill v = @y;", "let a.A v = @y;", "let a.P v = @y;", "let a.F v = @y;", "throw @y;", "throw @this;"}) {
+            fault(13, o.replace("%", s));
+        }
+    }
+
     /** All methods of that NAME of X, its PARENTS, ALL FACES, with as many params, all of whose types the ARGS' types FIT. */
     private static void candidates() {
         String m = "class a.A { int f() { return 1; } int f(int p) { return 2; } int f(int p, int q) { return 3; } int f(int p, int q, int r, int s) { return 4; } ";
@@ -703,5 +785,51 @@ public final class EdgesOfBuildsTest {
         Check.due("differ", c.x.differ(0, 0, 0), 0);
         Check.due("word", c.x.word(0, 0, 0), 0);
         Check.due("weave", c.x.weave(0, 0, 0), LinkHouse.NONE);
+    }
+
+    /** All that can be asked of a build, and what its c.M.m does. */
+    private static String all(Check c, int lib, int build) {
+        StringBuilder s = new StringBuilder();
+        for (int k = 0; k < c.x.classes(lib, build); k++) {
+            s.append(c.head(lib, build, k)).append(" {").append(c.members(lib, build, k)).append("} ").append(c.uses(lib, build, k)).append('\n');
+        }
+        s.append(c.x.uses(lib, build)).append(' ').append(c.x.text(lib, build)).append(' ').append(c.x.differ(lib, build, build));
+        c.x.pick(lib, build);
+        s.append(' ').append(c.x.broken()).append(' ').append(c.x.stale()).append(' ').append(c.run("c.M.m"));
+        return s.append(' ').append(c.x.value()).append(' ').append(c.x.told(0)).append(' ').append(c.numbers()).append(' ').append(c.events()).toString();
+    }
+
+    /** Of a text with a FAULT, and of a weave() that heals nothing, nothing is left in the build that is made next. */
+    private static void behindWhatWasNotKept() {
+        String[] texts = {
+            "class c.M { static void m() { out new c.B().f(1, null); out new c.B().x; out c.B.k; } } open bare class c.A { open final int x = 3; bare int f(int p, z.Any q); open c.A g() { return this; } } class c.B is c.A { int f(int p, z.Any q) { return p; } open c.B g() { return null; } own static int j; static int k; }",
+            "open bare class c.D only c.E { static final int k = 7; own static final int m(int p, int q, int r, int s) { let int t = p; return t; } open bare int n(); open final int o() { return 1; } new(int p) { super(); } start { j = 1; } static int j; } final class c.E is c.D as c.F in c.M { new() { super(1); } open int n() { return 4; } } face c.F { static void v() { } int w() { return 5; } } class c.M with c.E { static void m() { out c.E.k + c.E.j; out new c.E().n() + new c.E().o() + new c.E().w(); } }",
+            "face c.F { z.Any f(); } face c.G as c.F { c.G f(); int x = 2; static int s() { return x; } } class c.M as c.G { open c.M f() { return this; } static void m() { let c.F v = new c.M(); out v.f() == v; out c.G.s(); out x; } } class c.N { } class c.O { int a; static int b; static final int c = 1; c.O d; own int e; }",
+            "class c.M { int a = 1; int b = a + 1; static int c = 4; start { c = c + 1; } static int d = c * 2; new(int p) { b = b + p; } static void m() { let c.M v = new c.M(5); out v.a; out v.b; out c; out d; try { throw new c.X(); } catch (z.Ill e) { out e.code; } } } class c.X is z.Ill { }",
+            "class c.M { static void m() { out 1; } }", "class c.A { } class c.B { } class c.C { } class c.D { } class c.E { } class c.F { } class c.G { } class c.H { } class c.I { } class c.J { } class c.K { } class c.M { static int m() { return 6; } }",
+        };
+        for (String text : texts) {
+            fine(text);
+            Check fresh = new Check();
+            fresh.make(0, texts[0]);
+            Check.due("made", fresh.make(0, text), 1);
+            String due = all(fresh, 0, 1);
+            for (String other : texts) {
+                for (String more : new String[] {"class a.Z { int f() { } }", "class a.Z { a.Y y; }", "class a.Z { void f() { a.Y.f(); } }", "class z.Z { }", "class a.Z {"}) {
+                    Check c = new Check();
+                    c.make(0, texts[0]);
+                    Check.due("not kept", c.make(0, other + more) <= -10 ? 1 : 0, 1);
+                    Check.due("not kept", c.make(0, more + other) <= -10 ? 1 : 0, 1);
+                    Check.due("made", c.make(0, text), 1);
+                    Check.due("behind " + more + " of " + other, all(c, 0, 1), due);
+                }
+                Check c = new Check();
+                c.make(0, texts[0]);
+                c.make(1, other);
+                Check.due("nothing is healed", c.x.weave(1, 0, 0), LinkHouse.NONE);
+                Check.due("made", c.make(0, text), 1);
+                Check.due("behind a weave of " + other, all(c, 0, 1), due);
+            }
+        }
     }
 }

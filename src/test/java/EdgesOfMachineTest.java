@@ -24,6 +24,7 @@ public final class EdgesOfMachineTest {
         startsOfFaces();
         constantsAhead();
         constantsAsFields();
+        constantTheFirst();
         startsHaveLocals();
         triesEnd();
         facesNotStarted();
@@ -469,6 +470,19 @@ public final class EdgesOfMachineTest {
         c.x.pick(0, 1);
         Check.due("run", c.run("b.B.m"), 1);
         Check.due("set ahead, put behind", c.numbers(), "5 6 5 5 8 6 1 8");
+    }
+
+    /** A CONSTANT is set, whichever member it is, where another build GETs it. */
+    private static void constantTheFirst() {
+        for (String now : new String[] {"open static final int k = 5; open int j;", "open int j; open static final int k = 5;", "open int i() { return 1; } open new() { } open static int j = 1; open static final int k = 5; int l;"}) {
+            Check c = new Check();
+            c.stand(0, "open class a.A { open static int k; }");
+            c.stand(1, "class b.B { static void m() { out a.A.k; } }");
+            c.make(0, "open class a.A { " + now + " }");
+            c.x.pick(0, 1);
+            Check.due("run", c.run("b.B.m"), 1);
+            Check.due(now, c.numbers(), "5");
+        }
     }
 
     private static void startsHaveLocals() {

@@ -9,6 +9,8 @@ public final class EdgesOfMeetingTest {
         nothingMoreIsTold();
         linkedOverrides();
         linkedUses();
+        fourFaces();
+        linkedOneByOne();
         sortsOfC();
         makersMet();
         fieldsMet();
@@ -229,6 +231,48 @@ public final class EdgesOfMeetingTest {
         c.x.fresh();
         Check.due("a face of it is not LINKED", c.run("b.D.m"), -21);
         Check.due("both failed", c.events(), "401 701 201 301 406 706");
+    }
+
+    /** Each of four FACES is LOADED, LINKED, STARTED in order, and what one fails by its class fails by. */
+    private static void fourFaces() {
+        String faces = "open face a.E { int e() { return 1; } } open face a.F as a.E { } open face a.G { static int g() { return 1; } } open face a.H { int h(); } open face a.I { int i() { return 1; } } open class a.K is a.Q { } open class a.Q { }";
+        String user = "bare class b.A as a.F, a.G, a.H, a.I { static void m() { } }";
+        Check c = new Check();
+        c.stand(0, faces);
+        c.stand(1, user);
+        Check.due("run", c.run("b.A.m"), 1);
+        Check.due("events", c.events(), "201 301 401 501 601 901 202 302 402 502 602 902 903 203 204 603 604 904");
+        for (String f : new String[] {"a.F", "a.G", "a.H", "a.I"}) {
+            String loading = faces.replace("open face " + f, "open class " + f).replace("class a.F as a.E", "class a.F").replace("int h();", "");
+            Check d = world(faces, user, loading);
+            Check.due(f + " is a class", d.run("b.A.m"), -13);
+            Check.due("state", d.x.state(9), 5);
+            Check.due("its own USE", d.meet(1, 0, "19 " + f), "3  []");
+            Check e = world(faces, user, faces.replace("face " + f, "face " + f.replace("a.", "a.X")));
+            Check.due(f + " is not there", e.run("b.A.m"), -11);
+            Check.due("state", e.x.state(9), 5);
+            // Not LINKED: a.K is no a.Q any more.
+            Check g = new Check();
+            g.stand(0, "open class a.K is a.Q { } open class a.Q { }");
+            g.stand(1, faces.replace(" open class a.K is a.Q { } open class a.Q { }", "").replaceAll("(face " + f + "[^{]*\\{)", "$1 int x = y(null); static int y(a.K k) { let a.Q q = k; return 1; }"));
+            g.stand(2, user);
+            Check.due("run with " + f, g.run("b.A.m"), 1);
+            g.make(0, "open class a.K { } open class a.Q { }");
+            g.x.pick(0, 1);
+            Check.due(f + " is not LINKED", g.run("b.A.m"), -21);
+            Check.due("state", g.x.state(9), 6);
+            Check.due("state of " + f, g.x.state(f.charAt(2) - 'E' + 4), 6);
+        }
+    }
+
+    /** Each is LINKED behind its own PARENT, whatever was LINKED ahead. */
+    private static void linkedOneByOne() {
+        Check c = new Check();
+        c.stand(0, "class a.G { } class a.P is a.G { } class a.A is a.P { static void m() { } } class a.H { } class a.Q is a.H { } class a.B is a.Q { static void m() { } }");
+        Check.due("run", c.run("a.A.m"), 1);
+        Check.due("events", c.events(), "201 301 401 202 302 402 403 303 203 204 304 404");
+        Check.due("run", c.run("a.B.m"), 1);
+        Check.due("events", c.events(), "201 301 401 202 302 402 403 303 203 204 304 404 501 601 701 502 602 702 703 603 503 504 604 704");
     }
 
     private static final String LIB = "open class a.P { open int i; open static int s; open new() { } open new(int p) { } open int m() { return 1; } open static int t() { return 2; } } open class a.Q is a.P { open new() { } } open face a.F { int f(); int d() { return 1; } static int w() { return 3; } int c = 0 + w(); }";

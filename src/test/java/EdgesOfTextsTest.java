@@ -16,6 +16,7 @@ public final class EdgesOfTextsTest {
         numbers();
         ofOneTokenTheLeast();
         theEnd();
+        theEndBehindACut();
         tokens701();
         eachAsThe701st();
         classes13();
@@ -233,6 +234,37 @@ public final class EdgesOfTextsTest {
             }
         }
         fine(whole);
+    }
+
+    /** What was cut from THE TAPE is no more of the text, nor of a run's C.NAME, though it would go on with its last token. */
+    private static void theEndBehindACut() {
+        String[] wholes = {
+            "open class a.Abc is b.P as b.F only a.Abc { static int f(int p12) { return (p12 == 1234) + 56 < 7; } own new() { super(1); } start { a.Abc.f(null ask b.P); } }",
+            "class abc.d abcdefghijk", "class a.A { int x=1==2; } a.Bcdefghijkl", "class a.A { int x = 1234567890; }",
+        };
+        for (String whole : wholes) {
+            for (int n = 0; n < whole.length(); n++) {
+                Check cut = new Check();
+                cut.stand(0, BASE);
+                cut.tape(whole);
+                Check.due("left of " + whole, cut.x.cut(whole.length() - n), n);
+                Check fed = new Check();
+                fed.stand(0, BASE);
+                Check.due(n + " bytes of " + whole, cut.x.make(1), fed.make(1, whole.substring(0, n)));
+                Check.due("place in " + n + " bytes of " + whole, cut.x.place(), fed.x.place());
+            }
+        }
+        Check c = new Check();
+        c.stand(0, "class c.M { static void mm() { out 2; } static void m() { out 1; } } class c.Mm { static void m() { out 3; } }");
+        String[][] calls = {{"c.M.mm", "0", "2"}, {"c.M.mm", "1", "1"}, {"c.M.mm", "2", ""}, {"c.M.mm", "3", ""}, {"c.M.m()", "2", "1"}, {"c.Mm.m", "0", "3"}, {"c.Mm.m2", "1", "3"}, {"c.Mm.m c.M.m", "6", "3"}, {"c.Mm.m ", "1", "3"}, {"c.Mm.m ", "0", ""}};
+        for (String[] call : calls) {
+            c.tape(call[0]);
+            c.x.cut(Integer.parseInt(call[1]));
+            Check.due(call[0] + " but " + call[1], c.x.run(), call[2].isEmpty() ? LinkHouse.NONE : 1);
+            if (!call[2].isEmpty()) {
+                Check.due(call[0] + " but " + call[1], c.numbers(), call[2]);
+            }
+        }
     }
 
     /** 3 a token that is too much: the 701st. */
