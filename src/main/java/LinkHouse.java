@@ -392,13 +392,13 @@ public final class LinkHouse {
             spare.enter(i == lib ? null : buildOf(i, standing[i]));
         }
         spare.settle();
-        if (!judge.judge(spare, made, reader)) {
+        if (!judge.judge(spare, made)) {
             return faulted(judge.fault, judge.faultToken);
         }
         if (!bodies.judge(spare, made, reader)) {
             return faulted(bodies.fault, bodies.faultToken);
         }
-        emitter.write(spare, made, reader);
+        emitter.write(spare, made);
         reader.keep();
         faultPlace = NONE;
         return keep(made, lib);
@@ -2374,7 +2374,6 @@ public final class LinkHouse {
     private static final class Judge {
         World world;
         Build build;
-        Reader reader;
         int fault;
         int faultToken;
 
@@ -2386,10 +2385,9 @@ public final class LinkHouse {
             return false;
         }
 
-        boolean judge(World w, Build b, Reader r) {
+        boolean judge(World w, Build b) {
             world = w;
             build = b;
-            reader = r;
             fault = 0;
             for (int i = 0; i < build.rowCount && fault == 0; i++) {
                 head(build.rows[i], i);
@@ -3285,17 +3283,15 @@ public final class LinkHouse {
     private static final class Emitter {
         World world;
         Build build;
-        Reader reader;
         Row row;
         int rowNumber;
         Member member;
         int startTail;
         int fieldTail;
 
-        void write(World w, Build b, Reader r) {
+        void write(World w, Build b) {
             world = w;
             build = b;
-            reader = r;
             for (int i = 0; i < build.rowCount; i++) {
                 rowNumber = i;
                 openRow(build.rows[i]);

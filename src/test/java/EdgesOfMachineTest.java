@@ -37,6 +37,9 @@ public final class EdgesOfMachineTest {
         castsAndAsks();
         caught();
         faceCalls();
+        selectedIsBare();
+        whatStandsBelow();
+        amongManyClasses();
         staleCopies();
         afterFailure();
         fresh();
@@ -668,6 +671,67 @@ public final class EdgesOfMachineTest {
                 c.x.fresh();
                 Check.due(runs[r] + " with " + now[i], c.run(runs[r]), due[i][r]);
             }
+        }
+    }
+
+    /** BARE, too, if what is SELECTED is bare: by a class, by a face, whatever failed ahead. */
+    private static void selectedIsBare() {
+        Check c = new Check();
+        c.stand(0, "open class a.P { open int f() { return 1; } open int g() { return 2; } } open face a.F { int f(); int g(); }");
+        c.stand(1, "class b.C is a.P as a.F { static void m() { let a.P v = new b.C(); out v.f(); } static void n() { let a.F v = new b.C(); out v.f(); } static void o() { let a.F v = new b.C(); out v.g(); } static void k() { let a.F v = new b.D(); out v.g(); } static void l() { out new b.D().f(); } } class b.D is b.C { open int f() { return 3; } }");
+        String[] runs = {"m", "n", "o", "k", "l"};
+        int[][] due = {{1, 1, 1, 1, 1}, {-16, -16, 1, 1, 1}, {-16, -16, -13, -13, 1}, {-16, -16, -16, -16, 1}};
+        c.make(0, "open bare class a.P { open bare int f(); open int g() { return 2; } } open face a.F { int f(); int g(); }");
+        c.make(0, "open bare class a.P as a.G, a.H { open bare int f(); } open face a.F { int f(); int g(); } open face a.G as a.F { int g() { return 4; } } open face a.H as a.F { int g() { return 5; } }");
+        c.make(0, "open bare class a.P as a.G { open bare int f(); open bare int g(); } open face a.F { int f(); int g(); } open face a.G as a.F { int g() { return 4; } }");
+        for (int turn = 0; turn < 2; turn++) {
+            for (int build = 0; build < due.length; build++) {
+                c.x.pick(0, build);
+                for (int i = 0; i < runs.length; i++) {
+                    int r = turn == 0 ? i : runs.length - 1 - i;
+                    Check.due(runs[r] + " with build " + build, c.run("b.C." + runs[r]), due[build][r]);
+                }
+            }
+        }
+    }
+
+    /** What an E gives is one value, whatever it took: what stands left of it, ARGS ahead of it, are as they were. */
+    private static void whatStandsBelow() {
+        String text = "class c.M { static final int kk = 1; static int s = 1; int x = 1; int y; int f() { return 1; } static int g() { return 1; } static int h(z.Any p) { return p == null; } int i(int p, int q, int r) { return q - p - r; } "
+            + "static int three(int p, int q, int r) { return p * 100 + q * 10 + r; } static void k(z.Any p, int q, z.Any r) { out p == r; out q; out r == null; } static void m() { let c.M v = new c.M(); let z.Any n = null; "
+            + "out 5 - #; out 7 * #; out # + #; out # == #; out 0 < #; out three(2, #, 3); out three(#, 2, #); k(v, #, v); k(null, #, new z.Any()); v.y = #; v.y = v.y + #; out v.y; if (#) out 6; let int w = #; out w; out v == new c.M(); } }";
+        String[] ones = {"1", "(2 - 1)", "v ask c.M", "new c.M() ask c.M", "(n == null)", "(new z.Any() ask z.Any)", "(new z.Ill() ask z.Any)", "v.f()", "g()", "c.M.g()", "new c.M().f()", "v.x", "s", "c.M.s", "kk", "c.M.kk", "(0 < 1)", "((c.M) v).x", "(v == (c.M) v)", "new c.M().x", "h(null)", "(h(v) + 1)",
+            "v.i(2, 4, 1)", "((new z.Any() == null) + 1)"};
+        for (String one : ones) {
+            outs(text.replace("#", one), "4 7 2 1 1 213 121 1 1 0 0 1 0 2 6 1 0");
+        }
+        outs("class c.M { static int two(z.Any p, z.Any q) { return p == q; } static void m() { out new z.Any() == new z.Any(); out new z.Ill() == new z.Ill(); let z.Any v = new z.Any(); out v == new z.Any(); out new z.Any() == v; out two(v, new z.Any()); out two(new z.Any(), v); out two(v, v); out two(new z.Ill(), new z.Ill()); let z.Ill w = new z.Ill(); w.code = 4; out new z.Ill().code - w.code; out two(w, (z.Any) w); } }",
+            "0 0 0 0 0 0 1 0 -4 1");
+    }
+
+    /** In a world of as many classes as can be, the last of them are asked, made, called, STARTED again and again. */
+    private static void amongManyClasses() {
+        Check c = new Check();
+        for (int lib = 0; lib < 4; lib++) {
+            StringBuilder text = new StringBuilder();
+            for (int i = 0; i < 12; i++) {
+                text.append("open class ").append((char) ('a' + lib)).append(".A").append(i).append(i == 0 ? "" : " is " + (char) ('a' + lib) + ".A" + (i - 1)).append(" { open static int s = ").append(i).append("; } ");
+            }
+            c.stand(lib, text.toString());
+        }
+        StringBuilder text = new StringBuilder();
+        for (int i = 0; i < 11; i++) {
+            text.append("class e.A").append(i).append(i == 0 ? "" : " is e.A" + (i - 1)).append(" { int x").append(i).append(" = ").append(i).append("; static int s").append(i).append(" = ").append(i).append("; int f() { return x").append(i).append(" + s").append(i).append("; } } ");
+        }
+        text.append("class e.M { static void m() { let int i = 0; while (i < 3) { let e.A0 v = new e.A10(); out v.f(); out new e.A9().f(); let e.A10 w = (e.A10) v; out w.x10 + e.A10.s10; w.x0 = w.x0 + 1; out v.x0; out v ask e.A9; out v ask e.A10; e.A9.s9 = e.A9.s9 + 1; d.A11.s = d.A11.s + i; out d.A11.s; i = i + 1; } } }");
+        c.stand(4, text.toString());
+        Check.due("classes", c.x.told(5), 62);
+        for (int turn = 0; turn < 2; turn++) {
+            Check.due("run", c.run("e.M.m"), 1);
+            Check.due("numbers", c.numbers(), "20 18 20 1 1 1 11 20 19 20 1 1 1 12 20 20 20 1 1 1 14");
+            Check.due("the last OBJECT's class", c.x.classOf(c.x.told(2)), 59);
+            Check.due("the last class", c.x.state(61), 4);
+            c.x.fresh();
         }
     }
 

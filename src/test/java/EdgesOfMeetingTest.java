@@ -9,6 +9,7 @@ public final class EdgesOfMeetingTest {
         nothingMoreIsTold();
         linkedOverrides();
         linkedUses();
+        itsOwnUsesAlone();
         fourFaces();
         linkedOneByOne();
         sortsOfC();
@@ -64,6 +65,15 @@ public final class EdgesOfMeetingTest {
         Check.due("classes", c.x.told(5), 7);
         c.x.name(3);
         Check.due("name", c.out(), "c.B");
+        // Whichever class it is of the build ahead: the first of all, one between, the last.
+        for (String name : new String[] {"a.A", "a.B", "a.C"}) {
+            Check d = new Check();
+            d.stand(0, "class a.A { } class a.B { } class a.C { }");
+            d.stand(1, "class " + name + " { } class b.B { }");
+            Check.due("classes with two " + name, d.x.told(5), 6);
+            d.x.name(5);
+            Check.due("the last", d.out(), "b.B");
+        }
         StringBuilder twelve = new StringBuilder();
         for (int i = 0; i < 12; i++) {
             twelve.append("class %.A").append(i).append(" { } ");
@@ -231,6 +241,25 @@ public final class EdgesOfMeetingTest {
         c.x.fresh();
         Check.due("a face of it is not LINKED", c.run("b.D.m"), -21);
         Check.due("both failed", c.events(), "401 701 201 301 406 706");
+    }
+
+    /** Of a class its own USES 17 and 15 alone: not those of the classes beside it, nor those of a build ahead or behind. */
+    private static void itsOwnUsesAlone() {
+        String old = "open class a.P { } open class a.Q is a.P { } open class a.E is z.Ill { }";
+        String fits = "{ static void m() { } void f(a.Q q) { let a.P p = q; } } ";
+        String catches = "{ static void m() { } void f() { try { } catch (a.E e) { } } } ";
+        String none = "{ static void m() { } } ";
+        for (String odd : new String[] {fits, catches}) {
+            Check c = world(old, "class b.B " + none + "class b.C " + odd + "class b.D " + none + "face b.F " + odd.replace("void f", "own void f") + "face b.G " + none + "class b.H " + odd + "class b.I " + odd, "open class a.P { } open class a.Q { } open class a.E { }");
+            c.stand(2, "class c.C " + none);
+            boolean[] well = {true, false, true, false, true, false, false};
+            for (int k = 0; k < well.length; k++) {
+                String name = "b." + "BCDFGHI".charAt(k);
+                Check.due("run of " + name, c.run(name + ".m"), well[k] ? 1 : -21);
+                Check.due("state of " + name, c.x.state(5 + k), well[k] ? 4 : 6);
+            }
+            Check.due("run of c.C", c.run("c.C.m"), 1);
+        }
     }
 
     /** Each of four FACES is LOADED, LINKED, STARTED in order, and what one fails by its class fails by. */

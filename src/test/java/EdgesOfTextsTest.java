@@ -222,7 +222,13 @@ public final class EdgesOfTextsTest {
     private static void theEnd() {
         fine("");
         fine(" ");
-
+        // What the last byte is of.
+        for (String part : new String[] {"class a.A{int x=1==", "class a.A{int x=1<", "class a.A{int x=", "class a.A{int x=1", "class a.A{int x=12", "class a.A{int x", "class a.A{int xy", "class a.A", "class a.Ab", "class", "class a.A{int x=y.z", "class a.A{int x=b.P", "class a.A{int x=a."}) {
+            fault(2, part + "@");
+        }
+        fault(2, "class a.A{int x=1==@=");
+        fault(2, "class @a");
+        fault(2, "class @a.");
 
         String whole = "open class a.A is b.P as b.F only a.A { own a.A f(int p) { if (p) return this; else { let int q = p; } try { throw null; } catch (z.Ill e) { out super.m(); } return null; } new() { super(1); } start { } }";
         for (int n = 1; n < whole.length(); n++) {
