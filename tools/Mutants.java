@@ -25,8 +25,9 @@ import javax.tools.ToolProvider;
 
 /**
  * Changes LinkHouse.java at one place at a time (a bound by one, a comparison, a condition, a statement left out), and tells the
- * changes that none of the tests in src/test/java finds wrong: java tools/Mutants.java [skip [step]]. RoomTest is left out, and
- * RunsTest too, but with 'runs' as third word.
+ * changes that none of the tests in src/test/java finds wrong: java tools/Mutants.java [skip [step]] [runs] [conditions]. RoomTest
+ * is left out, and RunsTest too, but with 'runs'. With 'conditions' the changes are others: one part of a condition left out, a
+ * condition that always holds, or never.
  */
 public final class Mutants {
     private static final JavaCompiler COMPILER = ToolProvider.getSystemJavaCompiler();
@@ -41,17 +42,18 @@ public final class Mutants {
     private static final Map<Integer, String> LEFT = new ConcurrentHashMap<>();
 
     public static void main(String[] args) throws Exception {
-        int skip = args.length > 0 ? Integer.parseInt(args[0]) : 0;
-        int step = args.length > 1 ? Integer.parseInt(args[1]) : 1;
+        List<String> words = List.of(args);
+        int skip = args.length > 0 && args[0].matches("\\d+") ? Integer.parseInt(args[0]) : 0;
+        int step = args.length > 1 && args[1].matches("\\d+") ? Integer.parseInt(args[1]) : 1;
         source = Files.readString(Path.of("src/main/java/LinkHouse.java"));
-        compileTests(args.length > 2);
+        compileTests(words.contains("runs"));
         PrintStream told = System.out;
         System.setOut(new PrintStream(OutputStream.nullOutputStream()));
         if (!"".equals(tried(source))) {
             told.println("the tests find LinkHouse itself wrong: " + tried(source));
             return;
         }
-        List<Change> changes = changes();
+        List<Change> changes = words.contains("conditions") ? conditions() : changes();
         told.println(changes.size() + " changes");
         ExecutorService pool = Executors.newFixedThreadPool(Runtime.getRuntime().availableProcessors());
         for (int i = skip; i < changes.size(); i += step) {
@@ -100,6 +102,72 @@ public final class Mutants {
             all.add(new Change(m.start(), m.end(), ""));
         }
         return all;
+    }
+
+    /** Each part of a condition left out; each condition of an if or a ? that always holds, or never. */
+    private static List<Change> conditions() {
+        List<Change> all = new ArrayList<>();
+        Matcher m = Pattern.compile(" (&&|\\|\\|) ").matcher(source);
+        for (int at = 0; m.find(at); at = m.end() - 1) {
+            all.add(new Change(m.start(), rightEnd(m.end()), ""));
+            all.add(new Change(leftEnd(m.start(), true), m.end(), ""));
+        }
+        m = Pattern.compile(" \\? ").matcher(source);
+        while (m.find()) {
+            int from = leftEnd(m.start(), false);
+            all.add(new Change(from, m.start(), "true"));
+            all.add(new Change(from, m.start(), "false"));
+        }
+        m = Pattern.compile("\\bif \\(").matcher(source);
+        while (m.find()) {
+            int to = closing(m.end());
+            all.add(new Change(m.end(), to, "true"));
+            all.add(new Change(m.end(), to, "false"));
+        }
+        return all;
+    }
+
+    /** Where the ) is of the ( ahead of that place. */
+    private static int closing(int from) {
+        int depth = 1;
+        int i = from;
+        while (depth > 0) {
+            depth += source.charAt(i) == '(' ? 1 : source.charAt(i) == ')' ? -1 : 0;
+            i++;
+        }
+        return i - 1;
+    }
+
+    /** The end of a condition's part that begins there. */
+    private static int rightEnd(int from) {
+        int depth = 0;
+        for (int i = from; ; i++) {
+            char c = source.charAt(i);
+            depth += c == '(' || c == '[' ? 1 : c == ')' || c == ']' ? -1 : 0;
+            boolean ends = c == ';' || c == ',' || source.startsWith("&&", i) || source.startsWith("||", i) || source.startsWith("? ", i) || source.startsWith(": ", i);
+            if (depth < 0 || depth == 0 && ends) {
+                return source.charAt(i - 1) == ' ' ? i - 1 : i;
+            }
+        }
+    }
+
+    /** The begin of a condition, or of its last part, that ends there. */
+    private static int leftEnd(int to, boolean part) {
+        int depth = 0;
+        for (int i = to - 1; ; i--) {
+            char c = source.charAt(i);
+            depth += c == ')' || c == ']' ? 1 : c == '(' || c == '[' ? -1 : 0;
+            String ahead = source.substring(Math.max(0, i - 7), i + 1);
+            boolean begins = c == ';' || ahead.endsWith(", ") || ahead.endsWith("return ") || ahead.endsWith(" = ") || ahead.endsWith("= ") && !ahead.endsWith("== ") && !ahead.endsWith("!= ") && !ahead.endsWith("<= ") && !ahead.endsWith(">= ")
+                || ahead.endsWith("? ") || ahead.endsWith(": ") || part && (ahead.endsWith("&& ") || ahead.endsWith("|| "));
+            if (depth < 0 || depth == 0 && begins) {
+                int from = i + 1;
+                while (Character.isWhitespace(source.charAt(from))) {
+                    from++;
+                }
+                return from;
+            }
+        }
     }
 
     private static boolean inText(String line, int at) {

@@ -16,6 +16,7 @@ public final class EdgesOfBuildsTest {
         bridges();
         bridges13();
         owed();
+        noBridgeIsOwed();
         owedFromFarAbove();
         constants();
         constantsAcross();
@@ -419,6 +420,30 @@ public final class EdgesOfBuildsTest {
         fine("open bare class a.P { kin bare int f(); } class b.A is a.P { kin int f() { return 1; } }");
     }
 
+    /** 10 by no BRIDGE: those of two faces, woven each, clash, and nothing is owed. */
+    private static void noBridgeIsOwed() {
+        Check c = new Check();
+        c.stand(4, "open class e.P { } open class e.Q { }");
+        String[] faces = {"a.F", "b.G"};
+        for (int lib = 0; lib < 2; lib++) {
+            c.make(lib, "open face " + faces[lib] + " { z.Any f() { return null; } }");
+            c.make(lib, "open face " + faces[lib] + " { e." + "PQ".charAt(lib) + " f() { return null; } }");
+            Check.due("woven", c.x.weave(lib, 0, 1), 2);
+            Check.due("its members", c.members(lib, 2, 0), "open e." + "PQ".charAt(lib) + " f(); bridge open z.Any f()");
+            c.x.pick(lib, 2);
+        }
+        made(c, 2, 0, "class c.X as a.F, b.G { static void m() { let a.F v = new c.X(); out v.f() == null; } static void n() { let b.G v = new c.X(); out v.f() == null; } }");
+        c.x.pick(2, 0);
+        Check.due("each by its own", c.run("c.X.m") * 10 + c.run("c.X.n"), 11);
+        // What is no BRIDGE clashes with one, and with another that is none.
+        c.x.pick(0, 0);
+        made(c, 2, 10, "class @c.Y as a.F, b.G { }");
+        c.x.pick(1, 0);
+        made(c, 2, 10, "class @c.Z as a.F, b.G { }");
+        c.x.pick(1, 1);
+        made(c, 2, 0, "class c.Y as a.F, b.G { }");
+    }
+
     /** 10 by whatever of PARENTS or ALL FACES, near or far. */
     private static void owedFromFarAbove() {
         fault(10, "bare class a.G { bare int f(); } bare class a.P is a.G { } class @a.A is a.P { }");
@@ -585,6 +610,7 @@ public final class EdgesOfBuildsTest {
             inMethod(19, "@" + s + ";");
         }
         fineIn("new a.A().f(1);");
+        fine("face a.F { void d() { } } class a.P { void d() { } int m(int p) { return p; } static int t() { return 1; } } class a.A is a.P as a.F { open void d() { super.d(); a.F.super.d(); d(); this.d(); super.m(1); a.P.t(); t(); new a.P(); new a.P().d(); super.m(2); } }");
         fault(19, "class a.A { void f() { @(f()); } }");
         inMethod(19, "@((f(1)));");
     }

@@ -251,6 +251,12 @@ public final class EdgesOfClassesTest {
         made(c, 13, in + "v.f = @v; } }");
         made(c, 13, in + "v.f = @v.s; } }");
         made(c, 13, in + "v.f = @new a.H(); } }");
+        made(c, 13, in + "v.f = @new z.Ill(); } }");
+        made(c, 13, in + "v.f = @new z.Any(); } }");
+        made(c, 13, "class c.E is z.Ill { } " + in + "v.f = @new c.E(); } }");
+        made(c, 13, "face c.F { } " + in + "v.f = @(c.F) null; } }");
+        made(c, 13, in + "throw @v.f; } }");
+        made(c, 13, in + "let z.Ill w = @v.f; } }");
         made(c, 13, in + "out @v.f; } }");
         made(c, 13, in + "throw @v.f; } }");
         made(c, 12, in + "a.A.@h(v); } }");
@@ -427,6 +433,21 @@ public final class EdgesOfClassesTest {
         d.stand(1, "class b.R is a.Q { kin int n() { return 3; } static void m() { out new b.R().all(); } }");
         Check.due("run", d.run("b.R.m"), 1);
         Check.due("by one between that OVERRIDES it", d.numbers(), "3");
+        // One between that is static, or own, OVERRIDES nothing, so it leads to none.
+        String[] between = {"open int n() { return 2; }", "kin int n() { return 2; }", "int n() { return 2; }", "open static int n() { return 2; }", "own int n() { return 2; }", "open int n(int p) { return 2; }", ""};
+        String[] leads = {"3", "3", "1", "1", "1", "1", "1"};
+        for (int i = 0; i < between.length; i++) {
+            Check e = new Check();
+            e.stand(0, "open class a.P { open int all() { return 0; } }");
+            e.stand(1, "open class a.Q is a.P { }");
+            e.stand(2, "class b.R is a.Q { kin int n() { return 3; } static void m() { out new b.R().all(); } }");
+            e.make(1, "open class a.Q is a.P { " + between[i] + " }");
+            e.make(0, "open class a.P { open int all() { return n(); } int n() { return 1; } }");
+            e.x.pick(0, 1);
+            e.x.pick(1, 1);
+            Check.due("run with " + between[i], e.run("b.R.m"), 1);
+            Check.due("by " + between[i], e.numbers(), i == 2 ? "2" : leads[i]);
+        }
         // All of a class's that are no less open are a face's, too; what is not open is not LET by it.
         fails("face c.F { int f(); } class c.P { int f() { return 1; } } class c.M is c.P as c.F { static void m() { let c.F v = new c.M(); v.f(); } }", 2);
         fails("face c.F { int f(); } class c.P { kin int f() { return 1; } } class c.M is c.P as c.F { static void m() { let c.F v = new c.M(); v.f(); } }", 2);

@@ -126,6 +126,11 @@ public final class EdgesOfDifferTest {
         differs("class a.A { new() { } }", "class a.A { }", "", 0);
         differs("open class a.A { }", "open class a.A { open new() { } }", "", 0);
         // BRIDGES are no methods of these.
+        String p = "class a.P { open e.P f() { return null; } open z.Any g(int p) { return null; } } ";
+        differs(p + "class a.A is a.P { }", p + "class a.A is a.P { open e.Q f() { return null; } }", "40 1 1 - 0", 2);
+        differs(p + "class a.A is a.P { open e.Q f() { return null; } }", p + "class a.A is a.P { }", "30 1 1 0 -", 3);
+        differs(p + "class a.A is a.P { open e.Q f() { return null; } }", p + "class a.A is a.P { open e.P g(int p) { return null; } }", "30 1 1 0 -; 40 1 1 - 0", 3);
+        differs(p + "class a.B { }", p + "class a.A is a.P { open e.Q f() { return null; } } class a.B { }", "70 - 1 - -", 2);
         differs("class a.P { open e.P f() { return null; } } class a.A is a.P { open e.P f() { return null; } }", "class a.P { open e.P f() { return null; } } class a.A is a.P { open e.Q f() { return null; } }", "31 1 1 0 0", 3);
     }
 

@@ -821,7 +821,7 @@ public final class EdgesOfMachineTest {
             Check.due("value of " + r[0], c.x.value(), Integer.parseInt(r[1]));
             Check.due("THE TAPE is empty", c.x.told(6), 0);
         }
-        String[] none = {"", " ", "c.M.m ", " c.M.m", "c.M.m\n", "c .M.m", "c.M .m", "c.M. m", "c.M.m()", "c.M.m;", "c.M", "c.M.", ".m", "m", "c.M.M", "c.M.m.m", "c.M.mm", "c.M.i", "c.M.p", "c.M.abcdefghijk", "c.Abcdefgh99.z9", "c.X.m", "d.M.m", "c.N.b", "c.F.d", "c.F.e", "c.H.m", "z.Any.m", "z.Ill.code", "c.M.start", "c.M.new", "c.M.out", "C.M.m", "cc.M.m", "c.M.1", "c.M.m$", "$", "c.M.m\0"};
+        String[] none = {"", " ", "c.M.m ", " c.M.m", "c.M.m\n", "c .M.m", "c.M .m", "c.M. m", "c.M.m()", "c.M.m;", "c.M", "c.M.", ".m", "m", "c.M.M", "c.M.m.m", "c.M.mm", "c.M.i", "c.M.p", "c.M.abcdefghijk", "c.Abcdefgh99.z9", "c.X.m", "d.M.m", "c.N.b", "c.F.d", "c.F.e", "c.H.m", "z.Any.m", "z.Ill.code", "c.M.start", "c.M.new", "c.M.out", "C.M.m", "cc.M.m", "c.M.1", "c.M.m$", "$", "c.M.m\0", "c.M+m", "c.M=m", "c.M(m", "c.M,m", "c.M;m", "c.M<m", "m.m", "h.m", "cM.m", "1.m", "(.m", "this.m", "c.M.c.M", "c.M..m", "c.M=.m", "c.Mm", "c..M.m"};
         c.run("c.M.o");
         for (String n : none) {
             Check.due("run of '" + n + "'", c.run(n), LinkHouse.NONE);
@@ -854,6 +854,11 @@ public final class EdgesOfMachineTest {
             Check.due("run " + runs[i], c.run("c.M." + runs[i]), answers[i]);
             Check.due("value of " + runs[i], c.x.value(), due[i]);
             Check.due("asked twice", c.x.value(), due[i]);
+        }
+        Check d = with("class c.M { static void m() { let int i = 7; let c.M v = new c.M(); i = i + 1; } static void n() { let int i = 7; return ; } static void k() { let int i = 9; while (i) { let int j = i; i = i - 1; out j; f(j); } } static int f(int p) { return p * 2; } static void l() { f(3); new c.M(); let int i = f(4); f(i); } static void t() { try { throw new z.Ill(); } catch (z.Ill e) { let int i = 5; return ; } } }");
+        for (String run : new String[] {"m", "n", "k", "l", "t"}) {
+            Check.due("run " + run, d.run("c.M." + run), 1);
+            Check.due("void gives 0: " + run, d.x.value(), 0);
         }
         c.run("c.M.i");
         c.x.pick(0, LinkHouse.NONE);

@@ -21,6 +21,7 @@ public final class EdgesOfMeetingTest {
         copies();
         fitsMet();
         firstThatIsLoaded();
+        nestsAsked();
         otherLibrarys();
         metAndLooked();
         brokenList();
@@ -438,6 +439,12 @@ public final class EdgesOfMeetingTest {
             Check.due("nothing is LOADED", c.x.told(4), 0);
             Check.due("stale with " + each[0], c.x.stale() > 0 ? 17 : 0, Integer.parseInt(each[1]));
         }
+        // A value of 0 is a CONSTANT's, or none.
+        String[] now = {"open static final int k = 0;", "open static final int k = 3 - 3;", "open static final int k;", "open static int k = 0;", "open final int k = 0;", "open static int k;", "open static final int k = t(); open static int t() { return 0; }", "open static final z.Any k = null;", ""};
+        for (int i = 0; i < now.length; i++) {
+            Check zero = world("open class a.P { open static final int k = 0; }", "class b.B { int f() { return a.P.k; } }", "open class a.P { " + now[i] + " }");
+            Check.due("16 with " + now[i], zero.meet(1, 0, "16 a.P.k=0"), (i < 2 ? 0 : 17) + "  []");
+        }
         // Its own class's, by a NAME alone, when the PARENT is not there.
         Check c = world(old, user, "open class a.X { }");
         Check.due("16 of D", c.meet(1, 0, "16 b.B.k=5"), "17  []");
@@ -473,6 +480,41 @@ public final class EdgesOfMeetingTest {
         Check.due("no events", c.x.told(4), events);
         Check.due("tell", c.x.tell(0, 0, u), 11);
         Check.due("fresh", c.x.fresh(), 3);
+    }
+
+    /** NEST: H is there when it is LOADED without failure (D's is asked ahead of K's); when D is K none is asked. */
+    private static void nestsAsked() {
+        String texts = "class a.H with a.D, a.E { } class a.D in a.H { own static int x; int f() { return x + a.E.y + a.K.s + a.L.t; } } class a.E in a.H { own static int y; int f() { return a.L.t; } } ";
+        String user = texts + "class a.Z { int f() { return a.K.s + a.L.t; } }";
+        Check c = new Check();
+        c.stand(1, "open class a.K { open static int s; } open class a.L { open static int t; }");
+        c.stand(0, user);
+        c.make(1, "open class a.K in a.G { own static int s; } class a.G with a.K { } open class a.L { own static int t; }");
+        c.x.pick(1, 1);
+        // 2 a.H, 3 a.D, 4 a.E, 5 a.Z, 6 a.K, 7 a.G, 8 a.L
+        String[][] all = {{"0", "5 a.D.x:int", "0", "301"}, {"0", "5 a.E.y:int", "0", "301 401 201"}, {"0", "5 a.K.s:int", "2", "301 601 201 701"}, {"0", "5 a.L.t:int", "2", "301 801 201"}};
+        for (String[] each : all) {
+            c.x.fresh();
+            Check.due("touch of " + each[1], c.x.touch(0, 0, c.useOf(0, 0, each[1])), Integer.parseInt(each[2]));
+            Check.due("events by " + each[1], c.events(), each[3]);
+        }
+        c.x.fresh();
+        int last = c.x.uses(0, 0) - 1;
+        Check.due("of no NEST", c.x.use(0, 0, last, 1) * 100 + c.x.touch(0, 0, last), 302);
+        Check.due("nothing more is LOADED", c.events(), "501 801");
+        c.x.fresh();
+        Check.due("of no NEST, to one in a NEST", c.x.touch(0, 0, last - 1), 2);
+        Check.due("that one's is LOADED", c.events(), "501 601 701");
+        // H fails: each is its own NEST.
+        Check d = new Check();
+        d.stand(1, "open class b.P { }");
+        d.stand(0, texts.replace("class a.H", "class a.H is b.P").replace(" + a.K.s + a.L.t", "").replace("a.L.t", "y"));
+        Check.due("touch", d.x.touch(0, 0, d.useOf(0, 0, "5 a.E.y:int")), 0);
+        d.x.pick(1, LinkHouse.NONE);
+        Check.due("touch", d.x.touch(0, 0, d.useOf(0, 0, "5 a.E.y:int")), 2);
+        Check.due("once", d.events(), "301 401 205");
+        Check.due("D is K all the same", d.x.touch(0, 0, d.useOf(0, 0, "5 a.D.x:int")), 0);
+        Check.due("once", d.events(), "301 401 205");
     }
 
     /** NONE: the build does not stand there, or the class is another library's. */
