@@ -830,6 +830,11 @@ public final class EdgesOfMachineTest {
         Check.due("value stays", c.x.value(), 6);
         Check.due("steps stay", c.x.told(0), 2);
         Check.due("thrown", c.run("c.L.m"), 2);
+        Check a = with("class a.M { static int m() { return 1; } } class a.A { static int a() { return 2; } }");
+        for (String n : new String[] {"m.m", "M.m", "aM.m", "a.m", "a.a", "a.M.m.m", "a.a.M.m", "a.M.M", "null.m", "a.M.a"}) {
+            Check.due("run of '" + n + "'", a.run(n), LinkHouse.NONE);
+        }
+        Check.due("run", a.run("a.M.m") * 10 + a.run("a.A.a"), 11);
         Check d = new Check();
         d.stand(1, "class c.M { static int m() { return 1; } static int n() { return 2; } }");
         d.stand(0, "class c.M { static int m() { return 3; } }");
