@@ -9,6 +9,7 @@ public final class EdgesOfClassesTest {
         facesComeRound();
         fits();
         typesThatAreNotThere();
+        membersOfTypesThatAreNotThere();
         letClasses();
         access();
         kinNamedBy();
@@ -268,6 +269,34 @@ public final class EdgesOfClassesTest {
         made(c, 7, in + "out v ask @t.T; } }");
         c.x.pick(0, 0);
         made(c, 0, in + "let z.Any w = v.f; out v.f.x + v.f.m(); v.f = v.s; v.f = new a.H(); } }");
+    }
+
+    /** A method ABOVE of such a RESULT, or of such PARAMS; a field of such a type in the machine. */
+    private static void membersOfTypesThatAreNotThere() {
+        Check c = new Check();
+        c.stand(0, "open class t.T { open int x = 4; }");
+        c.stand(1, "open bare class a.R { open t.T g() { return null; } open bare int f(t.T p); } open class a.A { open t.T v; open static t.T s; open t.T g() { return v; } open static int k(t.T p) { return p == null; } open int e() { return v.x; } } open face a.F { int h(t.T p); } open face a.G { t.T i(); }");
+        c.x.pick(0, LinkHouse.NONE);
+        made(c, 9, "class c.C is a.A { open z.Any @g() { return null; } }");
+        made(c, 9, "class c.C is a.A { open a.A @g() { return null; } }");
+        made(c, 9, "class c.C is a.A { open void @g() { } }");
+        made(c, 7, "class c.C is a.A { open @t.T g() { return null; } }");
+        made(c, 10, "class @c.C is a.R { }");
+        made(c, 10, "class @c.C is a.R { open int f(z.Any p) { return 1; } }");
+        made(c, 10, "class @c.C as a.F { open int h(z.Any p) { return 1; } }");
+        made(c, 9, "class c.C as a.G { open z.Any @i() { return null; } }");
+        made(c, 0, "bare class c.C is a.R as a.F, a.G { }");
+        made(c, 0, "class c.C is a.A { z.Any w() { return null; } }");
+        int build = c.make(2, "class c.M { static void m() { let a.A p = new a.A(); out p.v == null; out a.A.s == p.v; out a.A.k(p.v); out a.A.k(null); out p.g() == null; p.v = null; p.v = p.g(); out p.v ask c.M; out (c.M) p.v == null; } static void n() { out new a.A().e(); } }");
+        c.x.pick(2, build);
+        Check.due("run", c.run("c.M.m"), 1);
+        Check.due("null is all that it can be", c.numbers(), "1 1 1 1 1 0 1");
+        Check.due("the USE is ahead of 13", c.run("c.M.n"), -11);
+        c.x.pick(0, 0);
+        Check.due("it is there", c.run("c.M.n"), -23);
+        made(c, 9, "class c.C is a.A { open z.Any @g() { return null; } }");
+        made(c, 0, "class c.C is a.A { open t.T g() { return null; } }");
+        made(c, 0, "class c.C is a.R as a.F { open int f(t.T p) { return p.x; } open int h(t.T p) { return 1; } }");
     }
 
     /** A class is LET to D, if it is open or D's PACKAGE is its own. */
